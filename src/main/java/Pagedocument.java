@@ -35,8 +35,6 @@ public final class Pagedocument {
     private final Doc[] docs = new Doc[DOCUMENTS];
     /** DOCUMENTS as they were ahead of the last CHANGES, two by two, and one pair more for the CHANGE that is tried. */
     private final Doc[] past = new Doc[DOCUMENTS * (MOST_CHANGES + 1)];
-    private final Doc loaded = new Doc();
-    private final Doc copy = new Doc();
     private final Text out = new Text(MOST_FILE);
     private final Text made = new Text(MOST_FILE);
     private final Text undone = new Text(MOST_DATA);
@@ -53,7 +51,6 @@ public final class Pagedocument {
     private final Editor editor;
     private int changes;
     private int knocks;
-    private long sum;
 
     public Pagedocument() {
         Doc[] holders = new Doc[DOCUMENTS + DOCUMENTS * (MOST_CHANGES + 1) + 2];
@@ -68,6 +65,8 @@ public final class Pagedocument {
             past[k] = new Doc();
             holders[DOCUMENTS + k] = past[k];
         }
+        Doc loaded = new Doc();
+        Doc copy = new Doc();
         holders[holders.length - 2] = loaded;
         holders[holders.length - 1] = copy;
         store = new Store(holders);
@@ -75,8 +74,8 @@ public final class Pagedocument {
         otherWalk = new Walk(store);
         painter = new Painter(store, sieve, reader);
         writer = new Writer(store, walk, sieve);
-        loader = new Loader(store, reader, sieve);
-        editor = new Editor(store, walk, painter);
+        loader = new Loader(store, reader, sieve, loaded);
+        editor = new Editor(store, walk, copy);
         editor.makeNew(docs[0]);
         editor.makeNew(docs[1]);
     }
@@ -242,12 +241,12 @@ public final class Pagedocument {
     public int read(int file, int doc) throws IndexOutOfBoundsException {
         Text source = fileOf(file);
         Doc changed = docOf(doc);
-        int fault = loader.load(source, loaded);
+        int fault = loader.load(source);
         if (fault != 0) {
             return -fault;
         }
         begin();
-        changed.take(loaded);
+        changed.take(loader.loaded);
         changed.homeText = store.add(source, source.length, false);
         changed.settle(file, loader.start);
         return end(changed.count());
@@ -256,16 +255,16 @@ public final class Pagedocument {
     public int repair(int file, int doc) throws IndexOutOfBoundsException {
         Text source = fileOf(file);
         Doc changed = docOf(doc);
-        if (!loader.mend(source, loaded)) {
+        if (!loader.mend(source)) {
             return REFUSED;
         }
         begin();
-        changed.take(loaded);
+        changed.take(loader.loaded);
         return end(changed.count());
     }
 
     public int faultOf(int file) throws IndexOutOfBoundsException {
-        return loader.load(fileOf(file), loaded);
+        return loader.load(fileOf(file));
     }
 
     // ---- objects
@@ -569,8 +568,8 @@ public final class Pagedocument {
             return REFUSED;
         }
         begin();
-        copy.take(docs[1 - doc]);
-        return end(editor.join(changed, copy));
+        editor.copy.take(docs[1 - doc]);
+        return end(editor.join(changed));
     }
 
     public int split(int doc, int from, int to) throws IndexOutOfBoundsException, IllegalArgumentException {
@@ -581,8 +580,12 @@ public final class Pagedocument {
             throw new IllegalArgumentException("the last page is ahead of the first one");
         }
         begin();
-        copy.take(asked);
-        return end(editor.part(copy, from, to, docs[1 - doc]));
+        editor.copy.take(asked);
+        if (!editor.keepPages(from, to)) {
+            return end(REFUSED);
+        }
+        editor.makeNew(docs[1 - doc]);
+        return end(editor.join(docs[1 - doc]));
     }
 
     // ---- notes, lines, fields, locks
@@ -716,15 +719,7 @@ public final class Pagedocument {
     }
 
     public int alike() {
-        walk.list(docs[0]);
-        otherWalk.list(docs[1]);
-        int both = Math.min(walk.pages, otherWalk.pages);
-        for (int page = 0; page < both; page++) {
-            if (!isSamePage(docs[0], docs[1], page)) {
-                return page;
-            }
-        }
-        return both;
+        return pagesAlike(docs[0], docs[1]);
     }
 
     public int house(int what) throws IllegalArgumentException {
@@ -752,23 +747,22 @@ public final class Pagedocument {
     }
 
     public long digest() {
-        sum = 7611;
+        long d = 7611;
         for (int what = 0; what < 4; what++) {
-            count(house(what));
+            d = d * 31 + house(what);
         }
-        countText(line);
+        d = withText(d, line);
         for (int k = 0; k < FILES; k++) {
-            count(loader.load(files[k], loaded));
-            countText(files[k]);
+            d = withText(d * 31 + loader.load(files[k]), files[k]);
         }
         for (int k = 0; k < DOCUMENTS; k++) {
-            countObjects(docs[k]);
-            countPages(docs[k]);
+            d = withObjects(d, docs[k]);
+            d = withPages(d, docs[k]);
+            d = withLines(d, docs[k]);
         }
-        count(alike());
+        d = d * 31 + pagesAlike(docs[0], docs[1]);
         boolean isAllSound = isDocSound(docs[0]) && isFlatSound(docs[0]) && isDocSound(docs[1]) && isFlatSound(docs[1]);
-        count(isAllSound ? 1 : 0);
-        return sum;
+        return d * 31 + (isAllSound ? 1 : 0);
     }
 
     // ---- what the calls share
@@ -1039,33 +1033,42 @@ public final class Pagedocument {
         }
     }
 
-    /** Compares a PAGE as walk tells it with that as otherWalk does. */
-    private boolean isSamePage(Doc doc, Doc other, int page) {
+    /** How many PAGES two DOCUMENTS have alike, from the first one on; both have their PAGES listed then. */
+    private int pagesAlike(Doc doc, Doc other) {
+        walk.list(doc);
+        otherWalk.list(other);
+        int both = Math.min(walk.pages, otherWalk.pages);
+        for (int page = 0; page < both; page++) {
+            painter.paint(doc, walk, page);
+            painter.keepMarks();
+            painter.paint(other, otherWalk, page);
+            if (!isFrameAlike(doc, other, page) || !painter.areMarksAsKept()) {
+                return page;
+            }
+        }
+        return both;
+    }
+
+    private boolean isFrameAlike(Doc doc, Doc other, int page) {
         for (int k = 0; k < 4; k++) {
             if (walk.box(doc, page, k) != otherWalk.box(other, page, k)) {
                 return false;
             }
         }
-        if (walk.turn(doc, page) != otherWalk.turn(other, page)) {
-            return false;
-        }
-        painter.paint(doc, walk, page);
-        painter.keepMarks();
-        painter.paint(other, otherWalk, page);
-        return painter.areMarksAsKept();
+        return walk.turn(doc, page) == otherWalk.turn(other, page);
     }
 
     private boolean isDocSound(Doc doc) {
         if (!doc.has(doc.root) || !writer.writeWhole(doc, false, out)) {
             return true;
         }
-        if (loader.load(out, loaded) != 0 || !isAllLoaded(doc)) {
+        if (loader.load(out) != 0 || !isAllLoaded(doc)) {
             return false;
         }
-        if (!loader.mend(out, loaded) || !isAllLoaded(doc)) {
+        if (!loader.mend(out) || !isAllLoaded(doc)) {
             return false;
         }
-        if (writer.writeWhole(doc, true, out) && (loader.load(out, loaded) != 0 || !isAllLoaded(doc))) {
+        if (writer.writeWhole(doc, true, out) && (loader.load(out) != 0 || !isAllLoaded(doc))) {
             return false;
         }
         for (int n = 1; n <= OBJECTS; n++) {
@@ -1080,11 +1083,11 @@ public final class Pagedocument {
     private boolean isAllLoaded(Doc doc) {
         for (int n = 1; n <= OBJECTS; n++) {
             int due = walk.hasCome(n) ? doc.object[n] : 0;
-            if (!store.isSame(due, loaded.object[n])) {
+            if (!store.isSame(due, loader.loaded.object[n])) {
                 return false;
             }
         }
-        return loaded.root == doc.root;
+        return loader.loaded.root == doc.root;
     }
 
     private boolean isSifted() {
@@ -1097,71 +1100,69 @@ public final class Pagedocument {
     }
 
     private boolean isFlatSound(Doc doc) {
-        copy.take(doc);
-        if (!doc.has(doc.root) || !editor.flatten(copy)) {
+        editor.copy.take(doc);
+        if (!doc.has(doc.root) || !editor.flatten(editor.copy)) {
             return true;
         }
-        walk.list(doc);
-        otherWalk.list(copy);
-        if (walk.pages != otherWalk.pages) {
-            return false;
-        }
-        for (int page = 0; page < walk.pages; page++) {
-            if (!isSamePage(doc, copy, page)) {
-                return false;
-            }
-        }
-        return true;
+        int alike = pagesAlike(doc, editor.copy);
+        return alike == walk.pages && alike == otherWalk.pages;
     }
 
-    private void count(long value) {
-        sum = sum * 31 + value;
-    }
-
-    private void countText(Text text) {
-        count(text.length);
+    private static long withText(long before, Text text) {
+        long d = before * 31 + text.length;
         for (int k = 0; k < text.length && k < text.signs.length; k++) {
-            count(text.signs[k]);
+            d = d * 31 + text.signs[k];
         }
+        return d;
     }
 
-    private void countObjects(Doc doc) {
+    private long withObjects(long before, Doc doc) {
+        long d = before;
         for (int what = 0; what <= 9; what++) {
-            count(factOfDoc(doc, what));
+            d = d * 31 + factOfDoc(doc, what);
         }
         for (int n = 1; n <= OBJECTS; n++) {
             tellObject(doc, n);
-            countText(out);
+            d = withText(d, out);
             tellData(doc, n, false);
-            countText(out);
+            d = withText(d, out);
         }
+        return d;
     }
 
-    private void countPages(Doc doc) {
+    private long withPages(long before, Doc doc) {
+        long d = before;
         walk.list(doc);
         for (int page = 0; page < walk.pages; page++) {
             painter.paint(doc, walk, page);
             for (int what = 0; what <= 8; what++) {
-                count(factOfPage(doc, page, what));
+                d = d * 31 + factOfPage(doc, page, what);
             }
             for (int mark = 0; mark < painter.marks; mark++) {
                 out.clear();
                 painter.tellMark(mark, out);
-                countText(out);
+                d = withText(d, out);
             }
             int notes = editor.notes(doc, walk.pageAt(page));
             for (int k = 0; k < notes; k++) {
                 out.clear();
                 editor.tellNote(doc, walk.pageAt(page), k, out);
-                countText(out);
+                d = withText(d, out);
             }
         }
+        return d;
+    }
+
+    private long withLines(long before, Doc doc) {
+        long d = before;
         int titles = editor.titles(doc);
+        walk.list(doc);
         for (int k = 0; k < titles; k++) {
             out.clear();
             editor.tellTitle(doc, k, out);
-            countText(out);
+            d = withText(d, out);
         }
+        return d;
     }
 
     // ---- the classes inside
@@ -1342,19 +1343,16 @@ public final class Pagedocument {
         }
 
         static int pass(byte[] t, int from, int end) {
-            int at = from;
-            while (at < end && (t[at] == ' ' || t[at] == '\n')) {
-                at++;
+            for (int at = from; at < end; at++) {
+                if (t[at] != ' ' && t[at] != '\n') {
+                    return at;
+                }
             }
-            return at;
+            return end;
         }
 
         static boolean isDigit(int sign) {
             return sign >= '0' && sign <= '9';
-        }
-
-        static boolean isLetter(int sign) {
-            return sign >= 'A' && sign <= 'Z' || sign >= 'a' && sign <= 'z';
         }
 
         /** The place behind the VALUE at a place. */
@@ -1390,14 +1388,12 @@ public final class Pagedocument {
 
         /** The NAME at a place, 0 if there is none. */
         static long nameAt(byte[] t, int at, int end) {
-            if (!isAt(t, at, end, '/')) {
+            if (at < 0 || at >= end || t[at] != '/') {
                 return 0;
             }
             long name = 0;
-            int shift = 40;
-            for (int k = at + 1; k < end && shift >= 0 && isLetter(t[k]); k++) {
-                name |= (long) t[k] << shift;
-                shift -= 8;
+            for (int k = 1; k <= 6 && at + k < end && (t[at + k] | 32) >= 'a' && (t[at + k] | 32) <= 'z'; k++) {
+                name |= (long) t[at + k] << (48 - 8 * k);
             }
             return name;
         }
@@ -1407,9 +1403,9 @@ public final class Pagedocument {
         }
 
         static int integerAt(byte[] t, int at, int end) {
-            boolean isBelow = isAt(t, at, end, '-');
+            boolean isBelow = at >= 0 && at < end && t[at] == '-';
             int number = 0;
-            for (int k = isBelow ? at + 1 : at; k >= 0 && k < end && isDigit(t[k]); k++) {
+            for (int k = isBelow ? at + 1 : at; k >= 0 && k < end && t[k] >= '0' && t[k] <= '9'; k++) {
                 number = number * 10 + t[k] - '0';
             }
             return isBelow ? -number : number;
@@ -1417,48 +1413,47 @@ public final class Pagedocument {
 
         /** The number of the OBJECT to which a REF at a place leads, 0 if there is no REF. */
         static int refAt(byte[] t, int at, int end) {
-            int number = 0;
-            int k = at < 0 ? end : at;
-            while (k < end && isDigit(t[k])) {
-                number = number * 10 + t[k] - '0';
-                k++;
+            if (at < 0) {
+                return 0;
             }
-            return k + 1 < end && k > at && t[k] == ' ' && t[k + 1] == 'R' && number <= OBJECTS ? number : 0;
+            int number = 0;
+            for (int k = at; k + 1 < end; k++) {
+                if (t[k] == ' ') {
+                    return t[k + 1] == 'R' && number <= OBJECTS ? number : 0;
+                }
+                if (t[k] < '0' || t[k] > '9') {
+                    return 0;
+                }
+                number = number * 10 + t[k] - '0';
+            }
+            return 0;
         }
 
         /** The place of the VALUE that the BOOK at a place has by its k-th NAME. */
         static int entryAt(byte[] t, int book, int end, int k) {
-            if (!isAt(t, book, end, '<')) {
+            if (book < 0 || book >= end || t[book] != '<') {
                 return NONE;
             }
             int at = book + 2;
-            for (int passed = 0; passed <= k; passed++) {
-                if (!isAt(t, at, end, '/')) {
-                    return NONE;
+            for (int passed = 0; passed <= k && at < end && t[at] == '/'; passed++) {
+                at = behind(t, at + 1, end) + 1;
+                if (passed == k) {
+                    return at < end ? at : NONE;
                 }
-                do {
-                    at++;
-                } while (at < end && t[at] != ' ');
-                at++;
-                if (passed < k) {
-                    at = behind(t, at, end) + 1;
-                }
+                at = behind(t, at, end) + 1;
             }
-            return at < end ? at : NONE;
+            return NONE;
         }
 
         /** The place of the VALUE that the BOOK at a place has by a NAME. */
         static int entry(byte[] t, int book, int end, long name) {
-            if (!isAt(t, book, end, '<')) {
+            if (book < 0 || book >= end || t[book] != '<') {
                 return NONE;
             }
             int at = book + 2;
-            for (int passed = 0; passed < MOST_NAMES && isAt(t, at, end, '/'); passed++) {
+            for (int passed = 0; passed < MOST_NAMES && at < end && t[at] == '/'; passed++) {
                 long found = nameAt(t, at, end);
-                do {
-                    at++;
-                } while (at < end && t[at] != ' ');
-                at++;
+                at = behind(t, at + 1, end) + 1;
                 if (found == name) {
                     return at < end ? at : NONE;
                 }
@@ -1469,13 +1464,13 @@ public final class Pagedocument {
 
         /** The place of the k-th VALUE of the ROW at a place. */
         static int itemAt(byte[] t, int row, int end, int k) {
-            if (!isAt(t, row, end, '[') || isAt(t, row + 1, end, ']')) {
+            if (row < 0 || row + 1 >= end || t[row] != '[' || t[row + 1] == ']') {
                 return NONE;
             }
             int at = row + 1;
-            for (int passed = 0; passed < k; passed++) {
+            for (int passed = 0; passed < k && at < end; passed++) {
                 at = behind(t, at, end);
-                if (!isAt(t, at, end, ' ')) {
+                if (at >= end || t[at] != ' ') {
                     return NONE;
                 }
                 at++;
@@ -1485,17 +1480,15 @@ public final class Pagedocument {
 
         /** How many VALUES a ROW has. */
         static int items(byte[] t, int row, int end) {
-            int many = 0;
-            while (many < MOST_VALUES && itemAt(t, row, end, many) >= 0) {
-                many++;
+            for (int k = 0; k < MOST_VALUES; k++) {
+                if (itemAt(t, row, end, k) < 0) {
+                    return k;
+                }
             }
-            return many;
+            return MOST_VALUES;
         }
 
         static boolean isBox(byte[] t, int at, int end) {
-            if (items(t, at, end) != 4) {
-                return false;
-            }
             for (int k = 0; k < 4; k++) {
                 int item = itemAt(t, at, end, k);
                 int number = integerAt(t, item, end);
@@ -1503,7 +1496,7 @@ public final class Pagedocument {
                     return false;
                 }
             }
-            return true;
+            return itemAt(t, at, end, 4) < 0;
         }
 
         /** Puts the SIGNS of the STRING at a place behind a text. */
@@ -1517,17 +1510,17 @@ public final class Pagedocument {
         }
 
         /**
-         * Puts a BOOK behind a text with another VALUE by a NAME (without that NAME, if the VALUE is ""), and tells
-         * how many NAMES it has then.
+         * Puts a BOOK behind a text with another VALUE by a NAME (without that NAME, if the VALUE is null or ""), and
+         * tells how many NAMES it has then. What is no BOOK counts as an empty one.
          */
         static int addBookWith(byte[] t, int book, int end, long name, Text value, Text into) {
-            boolean isTold = value.length == 0;
+            boolean isTold = value == null || value.length == 0;
             int names = 0;
-            int at = book + 2;
+            int at = isAt(t, book, end, '<') ? book + 2 : end;
             into.addWords("<<");
             for (int passed = 0; passed <= MOST_NAMES; passed++) {
                 long found = nameAt(t, at, end);
-                if (!isTold && (found == 0 || found >= name)) {
+                if (!isTold && value != null && (found == 0 || found >= name)) {
                     into.addWords(names > 0 ? " " : "");
                     into.addName(name);
                     into.add(' ');
@@ -1705,7 +1698,7 @@ public final class Pagedocument {
             int sign = at < end ? text[at] : NONE;
             int behind;
             if (sign == '[' || sign == '<') {
-                behind = open(at);
+                behind = pile(at);
                 if (behind >= 0 && sign == '[') {
                     out.add('[');
                 }
@@ -1740,7 +1733,7 @@ public final class Pagedocument {
             return behind;
         }
 
-        private int open(int at) {
+        private int pile(int at) {
             if (depth >= MOST_DEEP) {
                 fault = at;
                 return NONE;
@@ -1774,13 +1767,12 @@ public final class Pagedocument {
             int behind = first;
             int read = 0;
             isRef = false;
-            while (behind < end && text[behind] >= '0' && text[behind] <= '9') {
+            for (; behind < end && text[behind] >= '0' && text[behind] <= '9'; behind++) {
                 if (behind - first == 4) {
                     fault = at;
                     return NONE;
                 }
                 read = read * 10 + text[behind] - '0';
-                behind++;
             }
             if (behind == first) {
                 fault = behind;
@@ -1789,8 +1781,8 @@ public final class Pagedocument {
             number = isBelow ? -read : read;
             if (!isBelow && read >= 1 && read <= OBJECTS) {
                 int next = behind;
-                while (next < end && text[next] == ' ') {
-                    next++;
+                for (; next < end && text[next] == ' '; next++) {
+                    // only BLANKS may stand between
                 }
                 isRef = next > behind && next < end && text[next] == 'R';
                 behind = isRef ? next + 1 : behind;
@@ -1801,14 +1793,13 @@ public final class Pagedocument {
         private int behindName(int at) {
             int behind = at + 1;
             name = 0;
-            while (behind < end && (text[behind] | 32) >= 'a' && (text[behind] | 32) <= 'z') {
+            for (; behind < end && (text[behind] | 32) >= 'a' && (text[behind] | 32) <= 'z'; behind++) {
                 int letters = behind - at;
                 if (letters > 6) {
                     fault = at;
                     return NONE;
                 }
                 name |= (long) text[behind] << (48 - 8 * letters);
-                behind++;
             }
             if (behind == at + 1) {
                 fault = behind;
@@ -1862,7 +1853,11 @@ public final class Pagedocument {
             int filters = isRow ? Values.items(signs, filter, end) : 1;
             for (int k = 0; k < filters; k++) {
                 int item = isRow ? Values.itemAt(signs, filter, end, k) : filter;
-                if (filters > 3 || !unmake(filterOf(Values.nameAt(signs, item, end)), into, spare)) {
+                int kind = filters > 3 ? NONE : filterOf(Values.nameAt(signs, item, end));
+                spare.clear();
+                boolean isDone = kind == HEX && unmakeHex(into, spare) || kind == RUN && unmakeRun(into, spare)
+                        || kind == BACK && unmakeBack(into, spare);
+                if (!isDone) {
                     return false;
                 }
                 into.take(spare);
@@ -1899,10 +1894,7 @@ public final class Pagedocument {
             if (filter == HEX) {
                 return unmakeHex(from, into);
             }
-            if (filter == RUN) {
-                return unmakeRun(from, into);
-            }
-            return filter == BACK && unmakeBack(from, into);
+            return filter == RUN ? unmakeRun(from, into) : unmakeBack(from, into);
         }
 
         private void makeHex(Text from, Text into) {
@@ -1945,30 +1937,30 @@ public final class Pagedocument {
 
         private static boolean addCode(int code, Text into) {
             into.add(code);
-            return isSign(code) && into.length <= MOST_DATA;
+            return (code == '\n' || code >= 32 && code <= 126) && into.length <= MOST_DATA;
         }
 
         /** How often, up to 9 times, the SIGN at a place stands there. */
         private static int alikeFrom(Text from, int at) {
-            int many = 1;
-            while (many < 9 && at + many < from.length && from.signs[at + many] == from.signs[at]) {
-                many++;
+            for (int many = 1; many < 9; many++) {
+                if (at + many >= from.length || from.signs[at + many] != from.signs[at]) {
+                    return many;
+                }
             }
-            return many;
+            return 9;
         }
 
         private void makeRun(Text from, Text into) {
-            int at = 0;
-            while (at < from.length) {
+            int many;
+            for (int at = 0; at < from.length; at += many) {
                 int sign = from.signs[at];
-                int many = alikeFrom(from, at);
-                many = many < 3 ? 1 : many;
+                int alike = alikeFrom(from, at);
+                many = alike < 3 ? 1 : alike;
                 if (many > 1 || sign == '~') {
                     into.add('~');
                     into.add('0' + many);
                 }
                 into.add(sign);
-                at += many;
             }
         }
 
@@ -1994,16 +1986,16 @@ public final class Pagedocument {
 
         /** How many SIGNS from a place on, up to 9, stand already so far back. */
         private static int alikeBack(Text from, int at, int back) {
-            int many = 0;
-            while (many < 9 && at + many < from.length && from.signs[at + many] == from.signs[at + many - back]) {
-                many++;
+            for (int many = 0; many < 9; many++) {
+                if (at + many >= from.length || from.signs[at + many] != from.signs[at + many - back]) {
+                    return many;
+                }
             }
-            return many;
+            return 9;
         }
 
         private void makeBack(Text from, Text into) {
-            int at = 0;
-            while (at < from.length) {
+            for (int at = 0; at < from.length; at++) {
                 int best = 0;
                 int many = 2;
                 for (int back = 1; back <= 9 && back <= at; back++) {
@@ -2017,43 +2009,34 @@ public final class Pagedocument {
                     into.add('^');
                     into.add('0' + best);
                     into.add('0' + many);
-                    at += many;
+                    at += many - 1;
                 } else {
                     into.add(from.signs[at]);
                     into.addWords(from.signs[at] == '^' ? "00" : "");
-                    at++;
                 }
             }
         }
 
         private boolean unmakeBack(Text from, Text into) {
             for (int at = 0; at < from.length; at++) {
-                if (from.signs[at] != '^') {
-                    into.add(from.signs[at]);
-                } else if (at + 2 >= from.length) {
+                boolean isPlain = from.signs[at] != '^';
+                if (!isPlain && at + 2 >= from.length) {
                     return false;
-                } else if (from.signs[at + 1] == '0' && from.signs[at + 2] == '0') {
-                    into.add('^');
-                    at += 2;
-                } else {
-                    if (!copyBack(from.signs[at + 1] - '0', from.signs[at + 2] - '0', into)) {
-                        return false;
-                    }
-                    at += 2;
                 }
+                int back = isPlain ? 0 : from.signs[at + 1] - '0';
+                int many = isPlain ? 0 : from.signs[at + 2] - '0';
+                if (back == 0 && many == 0) {
+                    into.add(from.signs[at]);
+                } else if (back < 1 || back > 9 || many < 1 || many > 9 || back > into.length) {
+                    return false;
+                }
+                for (int k = 0; k < many; k++) {
+                    into.add(into.signs[into.length - back]);
+                }
+                at += isPlain ? 0 : 2;
                 if (into.length > MOST_DATA) {
                     return false;
                 }
-            }
-            return true;
-        }
-
-        private static boolean copyBack(int back, int many, Text into) {
-            if (back < 1 || back > 9 || many < 1 || many > 9 || back > into.length) {
-                return false;
-            }
-            for (int k = 0; k < many; k++) {
-                into.add(into.signs[into.length - back]);
             }
             return true;
         }
@@ -2104,7 +2087,7 @@ public final class Pagedocument {
             return id;
         }
 
-        /** Room grows as soon as half of it is taken by what stays, so that it is not swept too often. */
+        /** Room grows as soon as most of it is taken by what stays, so that it is not swept too often. */
         private void tidy(int more) {
             Arrays.fill(live, 0);
             for (int k = 0; k < holders.length; k++) {
@@ -2130,8 +2113,8 @@ public final class Pagedocument {
                 }
             }
             blocks = kept;
-            if (2 * (used + more) > signs.length) {
-                signs = Arrays.copyOf(signs, 3 * (used + more));
+            if (4 * (used + more) > 3 * signs.length) {
+                signs = Arrays.copyOf(signs, 2 * (signs.length + more));
             }
             if (2 * spare < start.length) {
                 growTables(2 * start.length);
@@ -2180,7 +2163,7 @@ public final class Pagedocument {
         }
 
         long kindOf(int id) {
-            return Values.nameAt(signs, entryOf(id, Values.KIND), used);
+            return id > 0 ? Values.nameAt(signs, Values.entry(signs, start[id], end(id), Values.KIND), used) : 0;
         }
 
         boolean isSame(int a, int b) {
@@ -2441,11 +2424,8 @@ public final class Pagedocument {
                         isInString = sign != ')';
                     } else if (sign == '(') {
                         isInString = true;
-                    } else if (Values.isDigit(sign)) {
+                    } else if (Values.isDigit(sign) && !Values.isDigit(store.signs[at - 1])) {
                         come(doc, Values.refAt(store.signs, at, end));
-                        while (at + 1 < end && Values.isDigit(store.signs[at + 1])) {
-                            at++;
-                        }
                     }
                 }
             }
@@ -3103,6 +3083,8 @@ public final class Pagedocument {
 
     /** READS a FILE by its TABLES, or REPAIRS it by a scan. */
     private static final class Loader {
+        /** What a FILE has, as it was READ or REPAIRED last. */
+        final Doc loaded;
         /** Where the newest TABLE begins. */
         int start;
         private final Store store;
@@ -3123,23 +3105,22 @@ public final class Pagedocument {
         private final int[] rootLine = new int[OBJECTS + 1];
         private int bodyNumber;
         private boolean isStream;
-        private int dataBegin;
-        private int dataEnd;
-        private final Text nothing = new Text(0);
-        private final Text body = new Text(MOST_FILE);
+        /** The BODY that was read last: its VALUE, or its BOOK without "Len" and its DATA. */
+        private final Text body = new Text(2 * MOST_FILE);
         private int bookLength;
         private final Text packText = new Text(MOST_DATA);
 
-        Loader(Store store, Reader reader, Sieve sieve) {
+        Loader(Store store, Reader reader, Sieve sieve, Doc loaded) {
             this.store = store;
             this.reader = reader;
             this.sieve = sieve;
+            this.loaded = loaded;
         }
 
         /** Tells the FAULT of a FILE, 0 without; the DOCUMENT is whole only then. */
-        int load(Text file, Doc into) {
+        int load(Text file) {
             look(file);
-            into.clear();
+            loaded.clear();
             if (expect(0, "%D1\n") < 0) {
                 return 1;
             }
@@ -3147,17 +3128,17 @@ public final class Pagedocument {
             if (start < 0) {
                 return 2;
             }
-            int fault = readTables(into);
+            int fault = readTables();
             if (fault != 0) {
                 return fault;
             }
             for (int n = 1; n <= OBJECTS; n++) {
                 boolean isTold = place[n] != NONE && place[n] != GONE;
-                if (isTold && !(pack[n] == 0 ? takeBody(n, into) : takePacked(n, into))) {
+                if (isTold && !(pack[n] == 0 ? takeBody(n) : takePacked(n))) {
                     return 5;
                 }
             }
-            return into.has(into.root) ? 0 : 6;
+            return loaded.has(loaded.root) ? 0 : 6;
         }
 
         private void look(Text file) {
@@ -3185,9 +3166,8 @@ public final class Pagedocument {
                 return NONE;
             }
             int behind = at;
-            while (behind < end && behind < at + 4 && Values.isDigit(text[behind])) {
+            for (; behind < end && behind < at + 4 && text[behind] >= '0' && text[behind] <= '9'; behind++) {
                 number = number * 10 + text[behind] - '0';
-                behind++;
             }
             return behind > at ? behind : NONE;
         }
@@ -3203,12 +3183,12 @@ public final class Pagedocument {
             return NONE;
         }
 
-        private int readTables(Doc into) {
+        private int readTables() {
             Arrays.fill(place, NONE);
             int at = start;
             boolean isNewest = true;
             for (int left = MOST_FILE; left > 0; left--) {
-                int fault = readTable(at, isNewest, into);
+                int fault = readTable(at, isNewest);
                 if (fault != 0) {
                     return isNewest ? fault : 4;
                 }
@@ -3228,14 +3208,14 @@ public final class Pagedocument {
         }
 
         /** Leaves the TRAILER with the reader. */
-        private int readTable(int from, boolean isNewest, Doc into) {
+        private int readTable(int from, boolean isNewest) {
             Arrays.fill(told, NONE);
             int at = expect(readLines(expect(from, "table\n")), "last\n");
             if (at < 0) {
                 return 3;
             }
             at = reader.readValue(text, at, end);
-            if (at < 0 || reader.out.signs[0] != '<' || isNewest && !takeTrailer(into)) {
+            if (at < 0 || reader.out.signs[0] != '<' || isNewest && !takeTrailer()) {
                 return 4;
             }
             at = expect(readNumber(expect(at, "\nstart\n")), "\n%E\n");
@@ -3245,7 +3225,7 @@ public final class Pagedocument {
         private int readLines(int from) {
             int at = from;
             int last = 0;
-            while (at >= 0 && at < end && Values.isDigit(text[at])) {
+            for (int left = OBJECTS; left >= 0 && at >= 0 && at < end && Values.isDigit(text[at]); left--) {
                 at = expect(readNumber(at), " ");
                 int n = number;
                 if (at < 0 || n <= last || n > OBJECTS) {
@@ -3293,7 +3273,7 @@ public final class Pagedocument {
         }
 
         /** Takes ROOT and LOCK; false, if there is no ROOT. */
-        private boolean takeTrailer(Doc into) {
+        private boolean takeTrailer() {
             byte[] signs = reader.out.signs;
             int length = reader.out.length;
             int root = Values.refAt(signs, Values.entry(signs, 0, length, Values.ROOT), length);
@@ -3303,27 +3283,27 @@ public final class Pagedocument {
             if (root == 0) {
                 return false;
             }
-            into.root = root;
+            loaded.root = root;
             if (Values.isInteger(signs, code, length) && Values.isInteger(signs, lets, length)) {
-                into.hasLock = true;
-                into.code = Values.integerAt(signs, code, length);
-                into.lets = Values.integerAt(signs, lets, length);
+                loaded.hasLock = true;
+                loaded.code = Values.integerAt(signs, code, length);
+                loaded.lets = Values.integerAt(signs, lets, length);
             }
             return true;
         }
 
-        private boolean takeBody(int n, Doc into) {
+        private boolean takeBody(int n) {
             if (place[n] < 0 || readBody(place[n], n) < 0) {
                 return false;
             }
             if (!isPack()) {
-                into.object[n] = store.add(body, bookLength, isStream);
+                loaded.object[n] = store.add(body, bookLength, isStream);
             }
             return true;
         }
 
         /** Takes an OBJECT out of its PACK: all that stands ahead of it there has to be right, too. */
-        private boolean takePacked(int n, Doc into) {
+        private boolean takePacked(int n) {
             if (place[n] < 0 || readBody(place[n], pack[n]) < 0 || !isPack()
                     || !sieve.textOf(body.signs, 0, bookLength, body.length, packText)) {
                 return false;
@@ -3340,7 +3320,7 @@ public final class Pagedocument {
             if (at < 0 || bodyNumber != n) {
                 return false;
             }
-            into.object[n] = store.add(reader.out, reader.out.length, false);
+            loaded.object[n] = store.add(reader.out, reader.out.length, false);
             return true;
         }
 
@@ -3364,11 +3344,10 @@ public final class Pagedocument {
             isStream = false;
             int behind = expect(at, "\nend\n");
             if (behind < 0) {
-                behind = readData(expect(at, "\ndata\n"));
+                return readData(expect(at, "\ndata\n"));
             }
-            if (behind >= 0) {
-                keepBody();
-            }
+            body.take(reader.out);
+            bookLength = body.length;
             return behind;
         }
 
@@ -3380,21 +3359,11 @@ public final class Pagedocument {
                 return NONE;
             }
             isStream = true;
-            dataBegin = at;
-            dataEnd = at + size;
-            return expect(dataEnd, "\nend\n");
-        }
-
-        private void keepBody() {
             body.clear();
-            if (isStream) {
-                Values.addBookWith(reader.out.signs, 0, reader.out.length, Values.LEN, nothing, body);
-                bookLength = body.length;
-                body.addRange(text, dataBegin, dataEnd);
-            } else {
-                body.take(reader.out);
-                bookLength = body.length;
-            }
+            Values.addBookWith(reader.out.signs, 0, length, Values.LEN, null, body);
+            bookLength = body.length;
+            body.addRange(text, at, at + size);
+            return expect(at + size, "\nend\n");
         }
 
         /** Whether the BODY that was read last is a PACK. */
@@ -3404,49 +3373,46 @@ public final class Pagedocument {
         }
 
         /** False, if the FILE can not be REPAIRED. */
-        boolean mend(Text file, Doc into) {
+        boolean mend(Text file) {
             look(file);
-            into.clear();
+            loaded.clear();
             scan();
             for (int n = 1; n <= OBJECTS; n++) {
                 if (place[n] >= 0) {
-                    takeBody(n, into);
+                    takeBody(n);
                 }
             }
             for (int n = 1; n <= OBJECTS; n++) {
-                if (place[n] >= 0 && !into.has(n) && readBody(place[n], n) >= 0 && isPack()) {
-                    unpack(into);
+                if (place[n] >= 0 && !loaded.has(n) && readBody(place[n], n) >= 0 && isPack()) {
+                    unpack();
                     look(file);
                 }
             }
-            into.root = rootFound(into);
-            return into.root != 0;
+            loaded.root = rootFound();
+            return loaded.root != 0;
         }
 
         private void scan() {
             Arrays.fill(place, NONE);
             Arrays.fill(rootLine, 0);
-            int at = 0;
-            while (at >= 0 && at < end) {
-                int behind = readBody(at, 0);
+            int line = 0;
+            for (int at = 0; at < end; at++) {
+                int behind = at == line ? readBody(at, 0) : NONE;
                 if (behind > at) {
                     place[bodyNumber] = at;
-                    at = behind;
-                } else {
+                    at = behind - 1;
+                } else if (at == line) {
                     findTrailer(at);
-                    while (at < end && text[at] != '\n') {
-                        at++;
-                    }
-                    at++;
                 }
+                line = text[at] == '\n' ? at + 1 : line;
             }
         }
 
         /** An empty line needs no look: what is READ from there is READ from the next line, too. */
         private void findTrailer(int line) {
             int at = line;
-            while (at < end && text[at] == ' ') {
-                at++;
+            for (; at < end && text[at] == ' '; at++) {
+                // BLANKS may stand ahead
             }
             if (at < end && text[at] == '<' && reader.readValue(text, at, end) >= 0) {
                 byte[] signs = reader.out.signs;
@@ -3455,7 +3421,7 @@ public final class Pagedocument {
             }
         }
 
-        private void unpack(Doc into) {
+        private void unpack() {
             if (!sieve.textOf(body.signs, 0, bookLength, body.length, packText)) {
                 return;
             }
@@ -3463,23 +3429,23 @@ public final class Pagedocument {
             int at = readPackLine(0);
             for (int left = MOST_DATA; left > 0 && at >= 0; left--) {
                 if (place[bodyNumber] < 0) {
-                    into.object[bodyNumber] = store.add(reader.out, reader.out.length, false);
+                    loaded.object[bodyNumber] = store.add(reader.out, reader.out.length, false);
                 }
                 at = readPackLine(at);
             }
         }
 
-        private int rootFound(Doc into) {
+        private int rootFound() {
             int root = 0;
             int line = 0;
             for (int n = 1; n <= OBJECTS; n++) {
-                if (into.has(n) && rootLine[n] > line) {
+                if (loaded.has(n) && rootLine[n] > line) {
                     root = n;
                     line = rootLine[n];
                 }
             }
             for (int n = 1; n <= OBJECTS && root == 0; n++) {
-                if (store.isBook(into.object[n]) && store.kindOf(into.object[n]) == Values.ROOT) {
+                if (store.isBook(loaded.object[n]) && store.kindOf(loaded.object[n]) == Values.ROOT) {
                     root = n;
                 }
             }
@@ -3489,10 +3455,10 @@ public final class Pagedocument {
 
     /** Changes DOCUMENTS. Where an act can not be, it may leave one half done: the caller takes that back. */
     private static final class Editor {
+        /** A copy of a DOCUMENT that an act needs, which may be changed. */
+        final Doc copy;
         private final Store store;
         private final Walk walk;
-        private final Painter painter;
-        private final Text nothing = new Text(0);
         /** What is said by a NAME, or of it, as it is put together. */
         private final Text value = new Text(MOST_DATA);
         private final Text item = new Text(MOST_DATA);
@@ -3508,10 +3474,10 @@ public final class Pagedocument {
         /** Of each OBJECT that is copied its new number, 0 without. */
         private final int[] renamed = new int[OBJECTS + 1];
 
-        Editor(Store store, Walk walk, Painter painter) {
+        Editor(Store store, Walk walk, Doc copy) {
             this.store = store;
             this.walk = walk;
-            this.painter = painter;
+            this.copy = copy;
         }
 
         void makeNew(Doc doc) {
@@ -3538,7 +3504,7 @@ public final class Pagedocument {
         }
 
         /** The BOOK gets what value is by a NAME. */
-        private void say(long name) {
+        private void tell(long name) {
             otherBook.clear();
             names = Values.addBookWith(book.signs, 0, book.length, name, value, otherBook);
             Text swapped = book;
@@ -3546,9 +3512,9 @@ public final class Pagedocument {
             otherBook = swapped;
         }
 
-        private void sayNothing(long name) {
+        private void tellNothing(long name) {
             value.clear();
-            say(name);
+            tell(name);
         }
 
         /** False, if the BOOK has too many NAMES. */
@@ -3571,7 +3537,7 @@ public final class Pagedocument {
         }
 
         /** What is said by a NAME becomes a ROW with item behind what it had; false, if that is too long. */
-        private boolean sayMore(long name, boolean isRefKept) {
+        private boolean tellMore(long name, boolean isRefKept) {
             int at = Values.entry(book.signs, 0, book.length, name);
             int had = Values.items(book.signs, at, book.length);
             value.clear();
@@ -3585,14 +3551,14 @@ public final class Pagedocument {
             }
             value.addRange(item.signs, 0, item.length);
             value.add(']');
-            say(name);
+            tell(name);
             return had < MOST_VALUES;
         }
 
         boolean makeStream(Doc doc, int n, Text data) {
             takeBook(doc, n);
-            sayNothing(Values.FILTER);
-            sayNothing(Values.LEN);
+            tellNothing(Values.FILTER);
+            tellNothing(Values.LEN);
             return keepStream(doc, n, data);
         }
 
@@ -3606,7 +3572,7 @@ public final class Pagedocument {
                 addFilter(third);
                 value.add(']');
             }
-            say(Values.FILTER);
+            tell(Values.FILTER);
             return keepStream(doc, n, data);
         }
 
@@ -3644,33 +3610,33 @@ public final class Pagedocument {
 
         private boolean flattenPage(Doc doc, int k) {
             takeBook(doc, kids[k]);
-            sayTurn(walk.turn(doc, k));
+            tellTurnOf(walk.turn(doc, k));
             int forms = walk.forms(doc, k);
             value.clear();
             if (Values.entryAt(store.signs, forms, store.used, 0) >= 0) {
                 value.addRange(store.signs, forms, Values.behind(store.signs, forms, store.used));
             }
-            say(Values.FORMS);
-            sayBox(walk.box(doc, k, 0), walk.box(doc, k, 1), walk.box(doc, k, 2), walk.box(doc, k, 3));
+            tell(Values.FORMS);
+            tellBoxOf(walk.box(doc, k, 0), walk.box(doc, k, 1), walk.box(doc, k, 2), walk.box(doc, k, 3));
             return keepBook(doc, kids[k]);
         }
 
-        private void sayTurn(int turn) {
+        private void tellTurnOf(int turn) {
             value.clear();
             if (turn != 0) {
                 value.addNumber(turn);
             }
-            say(Values.TURN);
+            tell(Values.TURN);
         }
 
-        private void sayBox(int x, int y, int w, int h) {
+        private void tellBoxOf(int x, int y, int w, int h) {
             value.clear();
             value.add('[');
             value.addPair(x, y);
             value.add(' ');
             value.addPair(w, h);
             value.add(']');
-            say(Values.BOX);
+            tell(Values.BOX);
         }
 
         /** The TREE becomes what kids tells; false, if they are too many. */
@@ -3692,7 +3658,7 @@ public final class Pagedocument {
             takeBook(doc, doc.root);
             value.clear();
             value.addRef(n);
-            say(Values.PAGES);
+            tell(Values.PAGES);
             return keepBook(doc, doc.root);
         }
 
@@ -3752,13 +3718,13 @@ public final class Pagedocument {
             takeBook(doc, walk.pageAt(page));
             value.clear();
             value.addNumber(turn);
-            say(Values.TURN);
+            tell(Values.TURN);
             return keepBook(doc, walk.pageAt(page)) ? turn : REFUSED;
         }
 
         boolean tellBox(Doc doc, int page, int x, int y, int w, int h) {
             takeBook(doc, walk.pageAt(page));
-            sayBox(x, y, w, h);
+            tellBoxOf(x, y, w, h);
             return keepBook(doc, walk.pageAt(page));
         }
 
@@ -3770,7 +3736,7 @@ public final class Pagedocument {
             takeBook(doc, walk.pageAt(page));
             item.clear();
             item.addRef(n);
-            return sayMore(Values.PARTS, true) && keepBook(doc, walk.pageAt(page)) ? n : REFUSED;
+            return tellMore(Values.PARTS, true) && keepBook(doc, walk.pageAt(page)) ? n : REFUSED;
         }
 
         int addForm(Doc doc, int page, int letter, Text data) {
@@ -3781,22 +3747,15 @@ public final class Pagedocument {
             takeBook(doc, n);
             value.clear();
             value.addName(Values.FORM);
-            say(Values.KIND);
+            tell(Values.KIND);
             keepStream(doc, n, data);
             int forms = walk.forms(doc, page);
             item.clear();
             item.addRef(n);
             value.clear();
-            int told = 1;
-            if (forms < 0) {
-                nothing.addWords("<<>>");
-                Values.addBookWith(nothing.signs, 0, nothing.length, Values.letter(letter), item, value);
-                nothing.clear();
-            } else {
-                told = Values.addBookWith(store.signs, forms, store.used, Values.letter(letter), item, value);
-            }
+            int told = Values.addBookWith(store.signs, forms, store.used, Values.letter(letter), item, value);
             takeBook(doc, walk.pageAt(page));
-            say(Values.FORMS);
+            tell(Values.FORMS);
             return told <= MOST_NAMES && keepBook(doc, walk.pageAt(page)) ? n : REFUSED;
         }
 
@@ -3811,29 +3770,29 @@ public final class Pagedocument {
             value.add('[');
             value.addRef(n);
             value.add(']');
-            say(Values.PARTS);
+            tell(Values.PARTS);
             value.clear();
             value.addWords("<<>>");
-            say(Values.FORMS);
+            tell(Values.FORMS);
             return keepBook(doc, walk.pageAt(page));
         }
 
         // ---- MERGE and SPLIT
 
-        /** Puts the PAGES of a copy, which may be changed, behind those of a DOCUMENT, and tells how many it has. */
-        int join(Doc doc, Doc other) {
-            if (!flatten(other)) {
+        /** Puts the PAGES of the copy behind those of a DOCUMENT, and tells how many it has then. */
+        int join(Doc doc) {
+            if (!flatten(copy)) {
                 return REFUSED;
             }
             int more = many;
             System.arraycopy(kids, 0, joined, 0, more);
-            walk.reachFromPages(other);
+            walk.reachFromPages(copy);
             if (!flatten(doc) || many + more > MOST_VALUES || !rename(doc)) {
                 return REFUSED;
             }
             for (int n = 1; n <= OBJECTS; n++) {
                 if (renamed[n] != 0) {
-                    copyObject(other.object[n], doc, renamed[n]);
+                    copyObject(copy.object[n], doc, renamed[n]);
                 }
             }
             for (int k = 0; k < more; k++) {
@@ -3926,18 +3885,16 @@ public final class Pagedocument {
             return at + 2;
         }
 
-        /** Some PAGES of a copy, which may be changed, make another DOCUMENT, a NEW one. */
-        int part(Doc other, int from, int to, Doc into) {
-            if (!flatten(other)) {
-                return REFUSED;
+        /** Makes the copy FLAT and leaves some PAGES alone in it; false, if that can not be. */
+        boolean keepPages(int from, int to) {
+            if (!flatten(copy)) {
+                return false;
             }
             many = to - from + 1;
             for (int k = 0; k < many; k++) {
                 kids[k] = kids[from + k];
             }
-            tellKids(other);
-            makeNew(into);
-            return join(into, other);
+            return tellKids(copy);
         }
 
         // ---- NOTES
@@ -3951,7 +3908,7 @@ public final class Pagedocument {
             item.addWords("] /Say (");
             item.addWord(word);
             item.addWords(")>>");
-            if (!sayMore(Values.NOTES, false) || !keepBook(doc, n)) {
+            if (!tellMore(Values.NOTES, false) || !keepBook(doc, n)) {
                 return REFUSED;
             }
             int books = 0;
@@ -3964,7 +3921,7 @@ public final class Pagedocument {
 
         private boolean isNote(int note) {
             int at = Values.entry(store.signs, note, store.used, Values.AT);
-            return Values.items(store.signs, at, store.used) == 2
+            return Values.itemAt(store.signs, at, store.used, 2) < 0
                     && Values.isInteger(store.signs, Values.itemAt(store.signs, at, store.used, 0), store.used)
                     && Values.isInteger(store.signs, Values.itemAt(store.signs, at, store.used, 1), store.used)
                     && Values.isAt(store.signs, Values.entry(store.signs, note, store.used, Values.SAY), store.used, '(');
@@ -3987,11 +3944,12 @@ public final class Pagedocument {
         }
 
         int notes(Doc doc, int page) {
-            int found = 0;
-            while (found < MOST_VALUES && noteAt(doc, page, found) >= 0) {
-                found++;
+            for (int k = 0; k < MOST_VALUES; k++) {
+                if (noteAt(doc, page, k) < 0) {
+                    return k;
+                }
             }
-            return found;
+            return MOST_VALUES;
         }
 
         boolean tellNote(Doc doc, int page, int k, Text into) {
@@ -4023,7 +3981,7 @@ public final class Pagedocument {
             item.addWords(") /To ");
             item.addRef(page);
             item.addWords(">>");
-            return sayMore(Values.LINES, false) && keepBook(doc, doc.root);
+            return tellMore(Values.LINES, false) && keepBook(doc, doc.root);
         }
 
         private boolean isTitle(int line) {
@@ -4051,11 +4009,12 @@ public final class Pagedocument {
         }
 
         int titles(Doc doc) {
-            int found = 0;
-            while (found < MOST_VALUES && titleAt(doc, found) >= 0) {
-                found++;
+            for (int k = 0; k < MOST_VALUES; k++) {
+                if (titleAt(doc, k) < 0) {
+                    return k;
+                }
             }
-            return found;
+            return MOST_VALUES;
         }
 
         /** The PAGES of the DOCUMENT have to be listed by the walk. */
@@ -4111,26 +4070,19 @@ public final class Pagedocument {
             item.addWords("<</Most ");
             item.addNumber(most);
             item.addWords(" /Value ()>>");
-            return sayField(doc, letter);
+            return tellFieldAs(doc, letter);
         }
 
         /** The FIELD with a NAME of one letter becomes what item is. */
-        private boolean sayField(Doc doc, int letter) {
+        private boolean tellFieldAs(Doc doc, int letter) {
             if (!doc.has(doc.root) || !store.isBook(doc.object[doc.root])) {
                 return false;
             }
             takeBook(doc, doc.root);
             int fields = fieldsOf(doc);
-            int told = 1;
             value.clear();
-            if (Values.isAt(store.signs, fields, store.used, '<')) {
-                told = Values.addBookWith(store.signs, fields, store.used, Values.letter(letter), item, value);
-            } else {
-                nothing.addWords("<<>>");
-                Values.addBookWith(nothing.signs, 0, nothing.length, Values.letter(letter), item, value);
-                nothing.clear();
-            }
-            say(Values.FIELDS);
+            int told = Values.addBookWith(store.signs, fields, store.used, Values.letter(letter), item, value);
+            tell(Values.FIELDS);
             return told <= MOST_NAMES && keepBook(doc, doc.root);
         }
 
@@ -4146,7 +4098,7 @@ public final class Pagedocument {
             value.add(')');
             item.clear();
             Values.addBookWith(store.signs, field, store.used, Values.VALUE, value, item);
-            return sayField(doc, letter);
+            return tellFieldAs(doc, letter);
         }
 
         boolean tellValue(Doc doc, int letter, Text into) {
