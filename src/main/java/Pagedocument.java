@@ -1839,6 +1839,8 @@ public final class Pagedocument {
 
     /** The three filters: what DATA is made of a TEXT, and TEXT of DATA. */
     private static final class Sieve {
+        private static final int MOST_FILTERS = 3;
+
         private final Text spare = new Text(MOST_DATA);
 
         /** Undoes the Filters of a STREAM of which BOOK and DATA stand behind each other; false, if it is BROKEN. */
@@ -1850,10 +1852,12 @@ public final class Pagedocument {
                 return true;
             }
             boolean isRow = Values.isAt(signs, filter, end, '[');
-            int filters = isRow ? Values.items(signs, filter, end) : 1;
-            for (int k = 0; k < filters; k++) {
-                int item = isRow ? Values.itemAt(signs, filter, end, k) : filter;
-                int kind = filters > 3 ? NONE : filterOf(Values.nameAt(signs, item, end));
+            for (int k = 0; k <= MOST_FILTERS; k++) {
+                int item = isRow ? Values.itemAt(signs, filter, end, k) : k == 0 ? filter : NONE;
+                if (item < 0) {
+                    return true;
+                }
+                int kind = k < MOST_FILTERS ? filterOf(Values.nameAt(signs, item, end)) : NONE;
                 spare.clear();
                 boolean isDone = kind == HEX && unmakeHex(into, spare) || kind == RUN && unmakeRun(into, spare)
                         || kind == BACK && unmakeBack(into, spare);
@@ -1862,7 +1866,7 @@ public final class Pagedocument {
                 }
                 into.take(spare);
             }
-            return true;
+            return false;
         }
 
         private static int filterOf(long name) {
@@ -1919,25 +1923,30 @@ public final class Pagedocument {
 
         private boolean unmakeHex(Text from, Text into) {
             int high = NONE;
-            for (int k = 0; k < from.length; k++) {
-                int sign = from.signs[k];
-                if (sign == '>') {
-                    return high < 0 || addCode(high * 16, into);
+            for (int at = 0; at < from.length; at++) {
+                int sign = from.signs[at];
+                boolean isLast = sign == '>';
+                if (isLast && high < 0) {
+                    return true;
                 }
-                if (sign != ' ' && sign != '\n') {
-                    int value = valueOfDigit(sign);
-                    if (value < 0 || high >= 0 && !addCode(high * 16 + value, into)) {
+                int low = isLast ? 0 : valueOfDigit(sign);
+                if (low < 0 && sign != ' ' && sign != '\n') {
+                    return false;
+                }
+                if (high >= 0 && low >= 0) {
+                    if (!isSign(high * 16 + low) || into.length >= MOST_DATA) {
                         return false;
                     }
-                    high = high < 0 ? value : NONE;
+                    into.add(high * 16 + low);
+                    high = NONE;
+                } else {
+                    high = low < 0 ? high : low;
+                }
+                if (isLast) {
+                    return true;
                 }
             }
             return false;
-        }
-
-        private static boolean addCode(int code, Text into) {
-            into.add(code);
-            return (code == '\n' || code >= 32 && code <= 126) && into.length <= MOST_DATA;
         }
 
         /** How often, up to 9 times, the SIGN at a place stands there. */
@@ -2366,7 +2375,8 @@ public final class Pagedocument {
             if (boxFrom[k] == 0) {
                 return which < 2 ? 0 : 20;
             }
-            int box = store.entryOf(doc.object[boxFrom[k]], Values.BOX);
+            int id = doc.object[boxFrom[k]];
+            int box = Values.entry(store.signs, store.at(id), store.end(id), Values.BOX);
             return Values.integerAt(store.signs, Values.itemAt(store.signs, box, store.used, which), store.used);
         }
 
