@@ -2427,6 +2427,7 @@ public final class Pagedocument {
                 int id = doc.object[todo[k]];
                 int end = store.end(id);
                 boolean isInString = false;
+                boolean isInNumber = false;
                 for (int at = store.at(id); at < end; at++) {
                     int sign = store.signs[at];
                     if (isInString) {
@@ -2434,9 +2435,10 @@ public final class Pagedocument {
                         isInString = sign != ')';
                     } else if (sign == '(') {
                         isInString = true;
-                    } else if (Values.isDigit(sign) && !Values.isDigit(store.signs[at - 1])) {
+                    } else if (Values.isDigit(sign) && !isInNumber) {
                         come(doc, Values.refAt(store.signs, at, end));
                     }
+                    isInNumber = !isInString && Values.isDigit(sign);
                 }
             }
         }
