@@ -1478,14 +1478,20 @@ public final class Pagedocument {
             return at < end ? at : NONE;
         }
 
+        /** The place of the VALUE behind that at a place, in the same ROW. */
+        static int nextItem(byte[] t, int item, int end) {
+            int at = item < 0 ? end : behind(t, item, end);
+            return at + 1 < end && t[at] == ' ' ? at + 1 : NONE;
+        }
+
         /** How many VALUES a ROW has. */
         static int items(byte[] t, int row, int end) {
-            for (int k = 0; k < MOST_VALUES; k++) {
-                if (itemAt(t, row, end, k) < 0) {
-                    return k;
-                }
+            int item = itemAt(t, row, end, 0);
+            int many = 0;
+            for (; many < MOST_VALUES && item >= 0; many++) {
+                item = nextItem(t, item, end);
             }
-            return MOST_VALUES;
+            return many;
         }
 
         static boolean isBox(byte[] t, int at, int end) {
@@ -2349,10 +2355,10 @@ public final class Pagedocument {
                 pages++;
                 return;
             }
-            int kids = store.entryOf(id, Values.KIDS);
-            for (int k = 0; k < MOST_VALUES; k++) {
-                int kid = Values.refAt(store.signs, Values.itemAt(store.signs, kids, store.used, k), store.used);
-                visit(doc, kid, deep + 1, ownBox, ownTurn, ownForms);
+            int kid = Values.itemAt(store.signs, store.entryOf(id, Values.KIDS), store.used, 0);
+            for (int k = 0; k < MOST_VALUES && kid >= 0; k++) {
+                visit(doc, Values.refAt(store.signs, kid, store.used), deep + 1, ownBox, ownTurn, ownForms);
+                kid = Values.nextItem(store.signs, kid, store.used);
             }
         }
 
@@ -2512,10 +2518,9 @@ public final class Pagedocument {
             into.clear();
             int parts = doc.has(page) ? store.entryOf(doc.object[page], Values.PARTS) : NONE;
             boolean isRow = Values.isAt(store.signs, parts, store.used, '[');
-            int many = isRow ? Values.items(store.signs, parts, store.used) : 1;
-            for (int k = 0; k < many; k++) {
-                int item = isRow ? Values.itemAt(store.signs, parts, store.used, k) : parts;
-                int n = Values.refAt(store.signs, item, store.used);
+            int part = isRow ? Values.itemAt(store.signs, parts, store.used, 0) : parts;
+            for (int k = 0; k < MOST_VALUES && part >= 0; k++) {
+                int n = Values.refAt(store.signs, part, store.used);
                 int id = doc.has(n) ? doc.object[n] : 0;
                 if (k > 0) {
                     into.add('\n');
@@ -2524,6 +2529,7 @@ public final class Pagedocument {
                         && sieve.textOf(store.signs, store.at(id), store.end(id), store.dataEnd(id), text[1])) {
                     into.addRange(text[1].signs, 0, text[1].length);
                 }
+                part = isRow ? Values.nextItem(store.signs, part, store.used) : NONE;
             }
         }
 
@@ -3924,9 +3930,10 @@ public final class Pagedocument {
                 return REFUSED;
             }
             int books = 0;
-            for (int k = 0; k < MOST_VALUES; k++) {
-                int at = Values.itemAt(value.signs, 0, value.length, k);
+            int at = Values.itemAt(value.signs, 0, value.length, 0);
+            for (int k = 0; k < MOST_VALUES && at >= 0; k++) {
                 books += Values.isAt(value.signs, at, value.length, '<') ? 1 : 0;
+                at = Values.nextItem(value.signs, at, value.length);
             }
             return books;
         }
@@ -3941,27 +3948,31 @@ public final class Pagedocument {
 
         /** The place of the k-th NOTE of a PAGE, NONE without. */
         private int noteAt(Doc doc, int page, int k) {
-            int notes = doc.has(page) ? store.entryOf(doc.object[page], Values.NOTES) : NONE;
+            int note = firstNote(doc, page);
             int left = k;
-            for (int i = 0; i < MOST_VALUES; i++) {
-                int note = Values.itemAt(store.signs, notes, store.used, i);
-                if (note >= 0 && isNote(note)) {
-                    if (left == 0) {
-                        return note;
-                    }
-                    left--;
+            for (int i = 0; i < MOST_VALUES && note >= 0; i++) {
+                left -= isNote(note) ? 1 : 0;
+                if (left < 0) {
+                    return k < 0 ? NONE : note;
                 }
+                note = Values.nextItem(store.signs, note, store.used);
             }
             return NONE;
         }
 
+        private int firstNote(Doc doc, int page) {
+            int notes = doc.has(page) ? store.entryOf(doc.object[page], Values.NOTES) : NONE;
+            return Values.itemAt(store.signs, notes, store.used, 0);
+        }
+
         int notes(Doc doc, int page) {
-            for (int k = 0; k < MOST_VALUES; k++) {
-                if (noteAt(doc, page, k) < 0) {
-                    return k;
-                }
+            int note = firstNote(doc, page);
+            int found = 0;
+            for (int i = 0; i < MOST_VALUES && note >= 0; i++) {
+                found += isNote(note) ? 1 : 0;
+                note = Values.nextItem(store.signs, note, store.used);
             }
-            return MOST_VALUES;
+            return found;
         }
 
         boolean tellNote(Doc doc, int page, int k, Text into) {
@@ -4006,27 +4017,31 @@ public final class Pagedocument {
 
         /** The place of the k-th LINE, NONE without. */
         private int titleAt(Doc doc, int k) {
-            int lines = doc.has(doc.root) ? store.entryOf(doc.object[doc.root], Values.LINES) : NONE;
+            int line = firstTitle(doc);
             int left = k;
-            for (int i = 0; i < MOST_VALUES; i++) {
-                int line = Values.itemAt(store.signs, lines, store.used, i);
-                if (line >= 0 && isTitle(line)) {
-                    if (left == 0) {
-                        return line;
-                    }
-                    left--;
+            for (int i = 0; i < MOST_VALUES && line >= 0; i++) {
+                left -= isTitle(line) ? 1 : 0;
+                if (left < 0) {
+                    return k < 0 ? NONE : line;
                 }
+                line = Values.nextItem(store.signs, line, store.used);
             }
             return NONE;
         }
 
+        private int firstTitle(Doc doc) {
+            int lines = doc.has(doc.root) ? store.entryOf(doc.object[doc.root], Values.LINES) : NONE;
+            return Values.itemAt(store.signs, lines, store.used, 0);
+        }
+
         int titles(Doc doc) {
-            for (int k = 0; k < MOST_VALUES; k++) {
-                if (titleAt(doc, k) < 0) {
-                    return k;
-                }
+            int line = firstTitle(doc);
+            int found = 0;
+            for (int i = 0; i < MOST_VALUES && line >= 0; i++) {
+                found += isTitle(line) ? 1 : 0;
+                line = Values.nextItem(store.signs, line, store.used);
             }
-            return MOST_VALUES;
+            return found;
         }
 
         /** The PAGES of the DOCUMENT have to be listed by the walk. */
