@@ -1524,7 +1524,8 @@ public final class Pagedocument {
             int names = 0;
             int at = isAt(t, book, end, '<') ? book + 2 : end;
             into.addWords("<<");
-            for (int passed = 0; passed <= MOST_NAMES; passed++) {
+            // a BOOK that is being changed may have too many NAMES for a while
+            for (int passed = 0; passed < 2 * MOST_NAMES; passed++) {
                 long found = nameAt(t, at, end);
                 if (!isTold && value != null && (found == 0 || found >= name)) {
                     into.addWords(names > 0 ? " " : "");
