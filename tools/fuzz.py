@@ -1,6 +1,6 @@
 """Compares Pagedocument with tools/model.py by random runs of calls.
 
-python3 tools/fuzz.py FIRST BEHIND CALLS [MODE]           compares the runs of these seeds (MODE 0 to 4; without: by seed)
+python3 tools/fuzz.py FIRST BEHIND CALLS [MODE]           compares the runs of these seeds (MODE 0 to 5; without: by seed)
 python3 tools/fuzz.py FIRST BEHIND CALLS MODE record FILE writes the runs with the model's answers into a file
 """
 import os, random, subprocess, sys, tempfile
@@ -298,6 +298,7 @@ class Gen:
                     if len(t)<=200: s.type(t); do('define',d,o)
         elif k==39: do('ofDoc',d,R.randint(0,9)); do('isSound')
     def run(s,n,mode):
+        calls=n
         if mode==1:
             for f in range(2):
                 t=craft(); 
@@ -312,11 +313,37 @@ class Gen:
                 s.do('cut',f,0)
                 t=''.join(R.choice([bodytext,bodytext,bodytext,lambda:R.choice(['junk\n','\n','<</Root 3 R>>\n',' <</Root 1 R>>\n','(','end\n','<<\n/Root 2 R>>\n'])])() for _ in range(R.randint(1,12)))
                 s.file(f,t); s.do('repair',f,f); s.do('digest')
+        if mode==5:
+            # texts near to the limits: 6000 of a FILE, 500 of DATA, 60 OBJECTS, 12 PAGES, 24 MARKS, 64 FORMS
+            t='1 o\n<</Kind /Root /Pages 2 R>>\nend\n'; kids=[]; n=3
+            goal=R.choice([1500,3000,5000,5900])
+            while len(t)<goal and n<=R.choice([20,50,60]):
+                k=R.random()
+                if k<.3 and len(kids)<R.choice([5,12,12,13]):
+                    kids.append(n); t+='%d o\n<</Kind /Page /Parts %s /Forms <<%s>>%s>>\nend\n'%(n,row(R.randint(0,12),lambda:'%d R'%R.randint(3,60)),' '.join('/%s %d R'%(x,R.randint(3,40)) for x in 'ABFZ'),R.choice(['',' /Up 2 R',' /Turn 3']))
+                elif k<.5:
+                    d=' '.join(R.choice(['/A X','/B X','/F X','/Z X','0 0 1 1 B','(ab) T','q','Q','1 1 1 M']) for _ in range(R.randint(1,40)))
+                    t+='%d o\n<</Kind /Form /Len %d>>\ndata\n%s\nend\n'%(n,len(d),d)
+                elif k<.7:
+                    d=R.choice(['~9a'*R.randint(50,56)+'a'*R.randint(0,6),'^00'+'^19'*R.randint(50,58),'3'*R.choice([400,499,500]),'~9(~9a~9)'*R.randint(5,18)+' T'])[:500]
+                    t+='%d o\n<<%s/Len %d>>\ndata\n%s\nend\n'%(n,R.choice(['','/Filter /Run ','/Filter /Back ','/Filter [/Run /Back]']),len(d),d)
+                elif k<.85:
+                    v='['+R.choice(['','<</A 1 /B [3 R 4 R]>> ','(abc) '])+' '.join(R.choice(['(%s)'%('x'*40),'%d R'%R.randint(1,60),'[1 2 3 4 5 6 7 8 9 10 11 12]','<</A %d R/B 5>>'%R.randint(1,60)]) for _ in range(R.randint(1,11)))+']'
+                    t+='%d o\n%s\nend\n'%(n,v)
+                else:
+                    d=''.join('%d %s\n'%(m,nice(60)) for m in R.sample(range(1,61),R.randint(1,4)))
+                    if len(d)<=500: t+='%d o\n<</Kind /Pack /Len %d>>\ndata\n%s\nend\n'%(n,len(d),d)
+                n+=R.choice([1,1,1,2])
+            t+='2 o\n<</Kind /Tree /Kids [%s]>>\nend\n'%' '.join('%d R'%k for k in kids[:12])
+            s.file(0,t[:6000]); s.do('repair',0,0); s.do('digest'); s.do('copyFile',1,0); s.do('repair',0,1)
+            for _ in range(R.randint(0,6)): s.do('merge',R.randint(0,1))
+            s.do('write',0,2,0); s.do('write',1,3,1); s.do('digest')
+            calls+=len(s.calls)
         if mode==3:
             d=0
             for _ in range(R.randint(1,4)): s.do('newPage',d,0,R.choice([5,8,12]),R.choice([5,8,12]))
-        while len(s.calls)<n:
-            s.op2() if mode==4 or R.random()<.15 else s.op()
+        while len(s.calls)<calls:
+            s.op2() if mode in(4,5) or R.random()<.15 else s.op()
         s.do('digest'); s.do('isSound')
         for d in(0,1):
             for o in range(1,16): s.do('object',d,o)
