@@ -590,7 +590,8 @@ public final class Pagedocument {
 
     // ---- notes, lines, fields, locks
 
-    public int note(int doc, int page, int x, int y, int word) throws IndexOutOfBoundsException, IllegalArgumentException {
+    public int note(int doc, int page, int x, int y, int word)
+            throws IndexOutOfBoundsException, IllegalArgumentException {
         Doc changed = docOf(doc);
         needPage(changed, page);
         if (!isIn(x, -99, 99) || !isIn(y, -99, 99) || !isIn(word, 0, 999)) {
@@ -1374,7 +1375,8 @@ public final class Pagedocument {
                 if (deep <= 0 && !isInString) {
                     int next = at + 1 < end ? t[at + 1] : ']';
                     boolean isRef = next == ' ' && at + 2 < end && t[at + 2] == 'R';
-                    if (sign == ')' || sign == ']' || sign == '>' || next == ']' || next == '>' || next == ' ' && !isRef) {
+                    boolean isClosed = sign == ')' || sign == ']' || sign == '>';
+                    if (isClosed || next == ']' || next == '>' || next == ' ' && !isRef) {
                         return at + 1;
                     }
                 }
@@ -3939,12 +3941,17 @@ public final class Pagedocument {
             return books;
         }
 
+        /** The place of the VALUE that the BOOK at a place has by a NAME. */
+        private int said(int book, long name) {
+            return Values.entry(store.signs, book, store.used, name);
+        }
+
         private boolean isNote(int note) {
-            int at = Values.entry(store.signs, note, store.used, Values.AT);
+            int at = said(note, Values.AT);
             return Values.itemAt(store.signs, at, store.used, 2) < 0
                     && Values.isInteger(store.signs, Values.itemAt(store.signs, at, store.used, 0), store.used)
                     && Values.isInteger(store.signs, Values.itemAt(store.signs, at, store.used, 1), store.used)
-                    && Values.isAt(store.signs, Values.entry(store.signs, note, store.used, Values.SAY), store.used, '(');
+                    && Values.isAt(store.signs, said(note, Values.SAY), store.used, '(');
         }
 
         /** The place of the k-th NOTE of a PAGE, NONE without. */
@@ -3981,12 +3988,12 @@ public final class Pagedocument {
             if (note < 0) {
                 return false;
             }
-            int at = Values.entry(store.signs, note, store.used, Values.AT);
+            int at = said(note, Values.AT);
             into.addNumber(Values.integerAt(store.signs, Values.itemAt(store.signs, at, store.used, 0), store.used));
             into.add(',');
             into.addNumber(Values.integerAt(store.signs, Values.itemAt(store.signs, at, store.used, 1), store.used));
             into.add(' ');
-            Values.addString(store.signs, Values.entry(store.signs, note, store.used, Values.SAY), store.used, into);
+            Values.addString(store.signs, said(note, Values.SAY), store.used, into);
             return true;
         }
 
@@ -4009,11 +4016,11 @@ public final class Pagedocument {
         }
 
         private boolean isTitle(int line) {
-            int deep = Values.entry(store.signs, line, store.used, Values.DEEP);
+            int deep = said(line, Values.DEEP);
             int number = Values.integerAt(store.signs, deep, store.used);
             return Values.isInteger(store.signs, deep, store.used) && number >= 0 && number <= 3
-                    && Values.isAt(store.signs, Values.entry(store.signs, line, store.used, Values.TITLE), store.used, '(')
-                    && Values.refAt(store.signs, Values.entry(store.signs, line, store.used, Values.TO), store.used) > 0;
+                    && Values.isAt(store.signs, said(line, Values.TITLE), store.used, '(')
+                    && Values.refAt(store.signs, said(line, Values.TO), store.used) > 0;
         }
 
         /** The place of the k-th LINE, NONE without. */
@@ -4051,14 +4058,14 @@ public final class Pagedocument {
             if (line < 0) {
                 return false;
             }
-            int deep = Values.integerAt(store.signs, Values.entry(store.signs, line, store.used, Values.DEEP), store.used);
+            int deep = Values.integerAt(store.signs, said(line, Values.DEEP), store.used);
             for (int i = 0; i < deep; i++) {
                 into.add('>');
             }
-            Values.addString(store.signs, Values.entry(store.signs, line, store.used, Values.TITLE), store.used, into);
+            Values.addString(store.signs, said(line, Values.TITLE), store.used, into);
             into.add(' ');
             int page = walk.pageOf(
-                    Values.refAt(store.signs, Values.entry(store.signs, line, store.used, Values.TO), store.used));
+                    Values.refAt(store.signs, said(line, Values.TO), store.used));
             if (page < 0) {
                 into.add('-');
             } else {
@@ -4074,13 +4081,13 @@ public final class Pagedocument {
         }
 
         private boolean isField(int field) {
-            return Values.isInteger(store.signs, Values.entry(store.signs, field, store.used, Values.MOST), store.used)
-                    && Values.isAt(store.signs, Values.entry(store.signs, field, store.used, Values.VALUE), store.used, '(');
+            return Values.isInteger(store.signs, said(field, Values.MOST), store.used)
+                    && Values.isAt(store.signs, said(field, Values.VALUE), store.used, '(');
         }
 
         /** The place of the FIELD with a NAME of one letter, NONE without. */
         private int fieldAt(Doc doc, int letter) {
-            int field = Values.entry(store.signs, fieldsOf(doc), store.used, Values.letter(letter));
+            int field = said(fieldsOf(doc), Values.letter(letter));
             return isField(field) ? field : NONE;
         }
 
@@ -4116,7 +4123,7 @@ public final class Pagedocument {
 
         boolean tellField(Doc doc, int letter, Text word) {
             int field = fieldAt(doc, letter);
-            int most = Values.entry(store.signs, field, store.used, Values.MOST);
+            int most = said(field, Values.MOST);
             if (field < 0 || word.length > Values.integerAt(store.signs, most, store.used)) {
                 return false;
             }
@@ -4134,7 +4141,7 @@ public final class Pagedocument {
             if (field < 0) {
                 return false;
             }
-            Values.addString(store.signs, Values.entry(store.signs, field, store.used, Values.VALUE), store.used, into);
+            Values.addString(store.signs, said(field, Values.VALUE), store.used, into);
             return true;
         }
     }
