@@ -114,6 +114,7 @@ public final class PagedocumentTest {
         changesOfFiles();
         fresh();
         write();
+        limits();
         packs();
         update();
         read();
@@ -441,6 +442,48 @@ public final class PagedocumentTest {
         due("the FILE stays", x.size(0), before);
     }
 
+    /** Fills DOCUMENT 0 by rows of strings, so that WRITTEN it is somewhat shorter than told, and tells how long. */
+    private static int fillUpTo(int length) {
+        int written = 0;
+        for (int n = 3; n < 60 && written + 150 < length; n++) {
+            define(0, n, "[" + (n == 3 ? 60 : n - 1) + " R (" + times(40, "x") + ") (" + times(40, "y") + ")]");
+            define(0, 1, "<</Kind /Root /Pages 2 R /S " + n + " R>>");
+            written = x.write(0, 0, false);
+        }
+        return written;
+    }
+
+    private static void limits() {
+        start(15);
+        define(0, 60, "[()]");
+        int length = fillUpTo(6000);
+        int more = 6000 - length;
+        due("some are missing", more > 10 && more < 170, true);
+        String row = "[" + times(more / 43, "(" + times(40, "z") + ") ") + "(" + times(more % 43, "z");
+        define(0, 60, row + ")]");
+        due("6000", x.write(0, 0, false), 6000);
+        due("READ again", x.read(0, 1), x.ofDoc(0, 0));
+        define(0, 60, row + "z)]");
+        due("6001", x.write(0, 0, false), -9);
+        start(16);
+        define(0, 60, "[()]");
+        length = fillUpTo(5900);
+        int alone = x.copyFile(1, 0);
+        define(0, 60, "[(a)]");
+        x.write(0, 0, false);
+        define(0, 60, "[()]");
+        more = 6000 - x.update(0);
+        due("some are missing", more > 10 && more < 190 && alone == length, true);
+        define(0, 60, "[(a)]");
+        x.write(0, 0, false);
+        row = "[" + times(more / 43, "(" + times(40, "z") + ") ") + "(" + times(more % 43, "z");
+        define(0, 60, row + "z)]");
+        due("6001", x.update(0), -9);
+        define(0, 60, row + ")]");
+        due("6000", x.update(0), 6000);
+        due("READ again", x.read(0, 1), x.ofDoc(0, 0));
+    }
+
     private static void packs() {
         start(15);
         define(0, 1, "<</Kind /Root /Pages 2 R /A [4 R 5 R 7 R]>>");
@@ -641,6 +684,13 @@ public final class PagedocumentTest {
         due("a BODY goes ahead", x.object(0, 3), "<</Kind /Root>>");
         due("a PACK's BODY, too", x.object(0, 5), "");
         due("up to what is not right", x.object(0, 6), "");
+        file(0, "60 o\n<</Kind/Root>>\nend\n061 o\n1\nend\n0 o\n1\nend\n");
+        due("number 60, not 61", x.repair(0, 0), 1);
+        due("number 60", x.object(0, 60), "<</Kind /Root>>");
+        file(0, "60 o\n<</Kind/Pack/Len 23>>\ndata\n1 <</Kind/Root>>\n59 (a)\nend\n");
+        due("a PACK of number 60 with a line too early", x.repair(0, 0), 1);
+        file(0, "60 o\n<</Kind/Pack/Len 24>>\ndata\n1 <</Kind/Root>>\n59 (a)\n\nend\n");
+        due("a PACK of number 60", x.repair(0, 0), 2);
         index("no FILE", () -> x.repair(4, 0));
         index("no DOCUMENT", () -> x.repair(0, 2));
     }
@@ -674,7 +724,7 @@ public final class PagedocumentTest {
         due("four filters", x.data(0, 4, true), "-");
         due("no NAME", x.data(0, 5, true), "-");
         start(22);
-        define(0, 3, "<</A [4 R (5 R) -6 9 R]>>");
+        define(0, 3, "<</A [4 R (a 5 R) -6 9 R (\\)5 R)]>>");
         stream(0, 3, "7 R");
         define(0, 1, "<</X [<</Y 3 R>>]>>");
         for (int n = 4; n <= 9; n++) {
@@ -1218,6 +1268,14 @@ public final class PagedocumentTest {
         due("a STREAM", x.ofDoc(1, 2), 1);
         index("no DOCUMENT", () -> x.merge(2));
         start(43);
+        x.newPage(1, 0, 5, 5);
+        define(1, 60, "(x)");
+        define(1, 3, "<</Kind /Page/A[<</B[<</C 60 R/D 9 R>>]>>]/E[[[[60 R 9 R]]]]>>");
+        x.merge(0);
+        due("five deep", x.object(0, 3),
+                "<</A [<</B [<</C 4 R>>]>>] /Box [0 0 20 20] /E [[[[4 R null]]]] /Kind /Page>>");
+        due("number 60", x.object(0, 4), "(x)");
+        start(43);
         for (int k = 0; k < 6; k++) {
             x.newPage(0, 0, 1, 1);
             x.newPage(1, 0, 1, 1);
@@ -1321,6 +1379,10 @@ public final class PagedocumentTest {
         define(0, 1, "<</Pages 2 R/Lines[<</Deep 2/Title(x\\()/To 3 R>> 7 <</Deep 0/Title()/To 50 R>>]>>");
         due("lineOf", x.lineOf(0, 0), ">>x( 1");
         due("to none", x.lineOf(0, 1), " -");
+        define(0, 60, "<</Kind /Page>>");
+        define(0, 2, "<</Kind /Tree/Kids[3 R 60 R]>>");
+        define(0, 1, "<</Pages 2 R/Lines[<</Deep 2/Title(x\\()/To 3 R>> 7 <</Deep 0/Title()/To 60 R>>]>>");
+        due("to number 60", x.lineOf(0, 1), " 1");
         indexText("no LINE", () -> x.lineOf(0, 2));
         indexText("no LINE", () -> x.lineOf(0, -1));
         indexText("no DOCUMENT", () -> x.lineOf(2, 0));
