@@ -538,6 +538,15 @@ public final class PagedocumentTest {
         x.lock(0, 0, 3);
         x.update(0);
         due("just the LOCK", whole(0).contains("table\nlast\n<</Lock <</Code 3 /Lets 3>> /Prev "), true);
+        x.lock(0, 0, 4);
+        due("other Lets", x.update(0) > 0, true);
+        x.lock(0, 97, 4);
+        due("the same Code of another KEY", x.update(0), 0);
+        x.lock(0, 1, 4);
+        due("another Code", x.update(0) > 0, true);
+        x.lock(0, -1, 0);
+        due("no LOCK any more", x.update(0) > 0, true);
+        due("nothing new again", x.update(0), 0);
         x.hurt(0, 0, 65);
         due("another text", x.update(0), -9);
         x.hurt(0, 0, '%');
@@ -551,6 +560,19 @@ public final class PagedocumentTest {
         x.read(0, 0);
         due("what can not be come to is told as gone", x.update(0) > 0, true);
         due("so", whole(0).contains("table\n3 -\nlast\n<</Prev 91 /Root 1 R /Size 4>>"), true);
+        start(16);
+        define(0, 60, "5");
+        x.write(0, 0, false);
+        define(0, 1, "<</Pages 60 R>>");
+        x.update(0);
+        due("number 60 is new", whole(0).contains("\n60 o\n5\nend\n"), true);
+        define(0, 1, "<</Pages 2 R>>");
+        x.update(0);
+        due("number 60 is gone", whole(0).contains("\n60 -\nlast\n"), true);
+        define(0, 60, "<</Kind /Pack>>");
+        stream(0, 60, "");
+        define(0, 1, "<</Pages 60 R>>");
+        due("number 60 is of Kind /Pack", x.update(0), -9);
         index("no DOCUMENT", () -> x.update(2));
     }
 
@@ -820,6 +842,19 @@ public final class PagedocumentTest {
         stream(0, 5, times(20, "abcdefghij"));
         due("two Hex", x.filter(0, 5, 0, 0, -1), -9);
         due("one Hex", x.filter(0, 5, 0, -1, -1), 401);
+        stream(0, 6, times(166, "~") + "ab");
+        x.filter(0, 6, -1, -1, -1);
+        stream(0, 6, "~a~b".repeat(41) + "~c");
+        due("Run makes them longer", x.filter(0, 6, 1, -1, -1), 41 * 8 + 4);
+        due("and again", x.filter(0, 6, 1, 1, -1), -9);
+        stream(0, 6, "~a".repeat(83) + "b".repeat(2));
+        due("334", x.filter(0, 6, 1, -1, -1), 83 * 4 + 2);
+        stream(0, 6, "~a".repeat(62) + "b");
+        due("500 of two", x.filter(0, 6, 1, 1, -1), 62 * 8 + 1);
+        stream(0, 6, "~a".repeat(62) + "bacd");
+        due("500 of two", x.filter(0, 6, 1, 1, -1), 500);
+        stream(0, 6, "~a".repeat(62) + "bacde");
+        due("501 of two", x.filter(0, 6, 1, 1, -1), -9);
     }
 
     private static void trees() {
@@ -911,6 +946,10 @@ public final class PagedocumentTest {
         contentDue("0 1 1 M", "!6");
         contentDue("10 1 1 M", "!7");
         contentDue("1 9999 -9999 M 1 0 0 M 1 1 0 M", "!29");
+        contentDue("1 -9999 9999 M 1 0 0 M 9999 -9999 1 1 B", "B 0 0 1 1");
+        contentDue("1 -9999 0 M 1 -1 0 M", "!19");
+        contentDue("1 0 9999 M 1 0 1 M", "!17");
+        contentDue("1 0 -9999 M 1 0 -1 M", "!19");
         contentDue("2 2 3 3 C 0 0 9 9 B 4 4 9 9 C 0 0 9 9 B 0 0 1 1 C 0 0 9 9 B", "B 2 2 3 3|B 4 4 1 1");
         contentDue("0 0 1 0 C", "!8");
         contentDue("1 1 2 2 C 2 Z (aa) T", "L a 0 0 4 2");
@@ -1570,6 +1609,12 @@ public final class PagedocumentTest {
         due("other MARKS", x.alike(), 2);
         x.addBox(0, 2, 0, 0, 5, 5);
         due("the same MARKS", x.alike(), 3);
+        x.addBox(0, 2, 1, 1, 1, 1);
+        x.addBox(1, 2, 1, 1, 1, 2);
+        due("another MARK", x.alike(), 2);
+        x.addBox(0, 2, 1, 1, 1, 2);
+        x.addBox(1, 2, 1, 1, 1, 1);
+        due("other MARKS, as many", x.alike(), 2);
         x.turnPage(0, 1, 1);
         due("another TURN", x.alike(), 1);
         x.boxPage(1, 0, 0, 0, 5, 6);
