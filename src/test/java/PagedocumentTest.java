@@ -713,6 +713,11 @@ public final class PagedocumentTest {
         due("a PACK of number 60 with a line too early", x.repair(0, 0), 1);
         file(0, "60 o\n<</Kind/Pack/Len 24>>\ndata\n1 <</Kind/Root>>\n59 (a)\n\nend\n");
         due("a PACK of number 60", x.repair(0, 0), 2);
+        file(0, "1 o\n<</Kind/Root>>\nend\n60 o\n1\nend\n<</Root 60 R>>\n<</Root 59 R>>\n");
+        x.repair(0, 0);
+        due("ROOT of number 60", x.ofDoc(0, 3), 60);
+        due("packed", x.write(0, 0, true) > 0, true);
+        due("packed as 60", whole(0).contains("data\n60 1\n\nend\ntable\n2 4\n60 p2.0\nlast\n<</Root 60 R /Size 61>>"), true);
         index("no FILE", () -> x.repair(4, 0));
         index("no DOCUMENT", () -> x.repair(0, 2));
     }
@@ -1134,6 +1139,9 @@ public final class PagedocumentTest {
         due("also 0", x.object(0, 3), "<</Box [0 0 1 1] /Kind /Page /Turn 0>>");
         define(0, 3, "<</Kind /Page/A 1/B 1/C 1/D 1/E 1/F 1/G 1/H 1/I 1>>");
         due("11 NAMES", x.turnPage(0, 0, 1), -9);
+        define(0, 3, "<</Kind /Page/A 1/B 1/C 1/D 1/E 1/F 1/G 1/H 1>>");
+        due("10 NAMES", x.turnPage(0, 0, 1), 1);
+        due("in its place", x.turnPage(0, 0, 1), 2);
         argument("quarters", () -> x.turnPage(0, 0, 4));
         argument("quarters", () -> x.turnPage(0, 0, -1));
         index("no PAGE", () -> x.turnPage(0, 1, 4));
