@@ -1,4 +1,5 @@
 import java.util.ArrayList;
+import java.util.Arrays;
 import java.util.List;
 
 /**
@@ -15,10 +16,14 @@ abstract class Trial {
     private static final String INDEX = "IndexOutOfBoundsException";
     private static final String ARGUMENT = "IllegalArgumentException";
     private static final String STATE = "IllegalStateException";
+    private static final String[] WORDS = {"/Kind ", "/Page", "/Tree", "/Kids ", "/Count ", "/Box ", "/Turn ", "/Parts ",
+        "/Forms ", "/Filter ", "/Form", "/Pages ", "/Root", "/Pack", "/Hex", "/Run", "/Back", "<<", ">>", " R", "/Notes ",
+        "/Lines ", "/Fields "};
 
     private final List<Call> run = new ArrayList<>();
     private Pagedocument x = new Pagedocument();
     private String sentence = "";
+    private int kept;
     private int looked;
     private int wrong;
 
@@ -27,6 +32,18 @@ abstract class Trial {
         sentence = of;
         x = new Pagedocument();
         run.clear();
+        kept = 0;
+    }
+
+    /** What was done so far is what back() goes back to. */
+    protected final void keep() {
+        kept = run.size();
+    }
+
+    /** Goes on with a new object for which only that was done which was kept: so each has few calls. */
+    protected final void back() {
+        run.subList(kept, run.size()).clear();
+        x = again();
     }
 
     /** The same run goes on under another sentence. */
@@ -94,7 +111,8 @@ abstract class Trial {
         idle(what, "throws " + STATE, call);
     }
 
-    private Pagedocument again() {
+    /** A new object for which the same was done. */
+    protected final Pagedocument again() {
         Pagedocument other = new Pagedocument();
         for (Call call : run) {
             answer(other, call);
@@ -125,16 +143,33 @@ abstract class Trial {
         does(on -> typed(on, text));
     }
 
+    /** Six codes a call, and words where they can be, as an object is used for at most 512 calls. */
     protected static int typed(Pagedocument on, String text) {
-        int length = on.say(300, -1, -1, -1, -1, -1);
-        for (int k = 0; k < text.length(); k += 6) {
-            int[] codes = new int[6];
-            for (int m = 0; m < 6; m++) {
-                codes[m] = k + m < text.length() ? text.charAt(k + m) : -1;
+        int[] codes = {300, -1, -1, -1, -1, -1};
+        int many = 1;
+        int length = 0;
+        for (int at = 0; at < text.length();) {
+            int word = wordAt(text, at);
+            codes[many] = word < 0 ? text.charAt(at) : 200 + word;
+            at += word < 0 ? 1 : WORDS[word].length();
+            many++;
+            if (many == codes.length) {
+                length = on.say(codes[0], codes[1], codes[2], codes[3], codes[4], codes[5]);
+                Arrays.fill(codes, -1);
+                many = 0;
             }
-            length = on.say(codes[0], codes[1], codes[2], codes[3], codes[4], codes[5]);
         }
-        return length;
+        return many == 0 ? length : on.say(codes[0], codes[1], codes[2], codes[3], codes[4], codes[5]);
+    }
+
+    private static int wordAt(String text, int at) {
+        int found = -1;
+        for (int k = 0; k < WORDS.length; k++) {
+            if (text.startsWith(WORDS[k], at) && (found < 0 || WORDS[k].length() > WORDS[found].length())) {
+                found = k;
+            }
+        }
+        return found;
     }
 
     /** Makes a FILE this text. */
@@ -143,10 +178,15 @@ abstract class Trial {
     }
 
     protected static int filed(Pagedocument on, int file, String text) {
+        String last = null;
         on.cut(file, 0);
         for (int k = 0; k < text.length(); k += 200) {
-            typed(on, text.substring(k, Math.min(k + 200, text.length())));
+            String next = text.substring(k, Math.min(k + 200, text.length()));
+            if (!next.equals(last)) {
+                typed(on, next);
+            }
             on.put(file, on.size(file));
+            last = next;
         }
         return on.size(file);
     }

@@ -790,8 +790,6 @@ public final class ChangeBounds extends Trial {
         define(0, 3, "<</Kind/Page/A 1" + EIGHT + ">>");
         refused("11 NAMES by Box", x -> x.split(0, 0, 0));
         start("a copy that needs more numbers than are left");
-        define(0, 2, "<</Kind/Tree/Kids[3 R]>>");
-        taken(4, 57);
         StringBuilder all = new StringBuilder();
         for (int k = 0; k < 5; k++) {
             StringBuilder row = new StringBuilder();
@@ -804,6 +802,7 @@ public final class ChangeBounds extends Trial {
                 + bodies(4, 60) + "<</Root 1 R>>\n");
         due("58 for 58", 1, x -> x.split(0, 0, 0));
         due("60 OBJECTS", 60, x -> x.ofDoc(1, 0));
+        back();
         repaired(body(1, "<</Pages 2 R>>") + body(2, "<</Kind/Tree/Kids[3 R]>>") + body(3, "<</Kind/Page/Up 2 R" + all + ">>")
                 + bodies(4, 60) + "<</Root 1 R>>\n");
         refused("59 for 58", x -> x.split(0, 0, 0));

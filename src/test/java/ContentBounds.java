@@ -35,11 +35,23 @@ public final class ContentBounds extends Trial {
     private void page(int w, int h) {
         does(x -> x.newPage(0, 0, w, h));
         define(0, 3, "<</Kind/Page/Box[0 0 " + w + " " + h + "]/Parts 30 R/Forms<</A 31 R/B 32 R/C 33 R>>>>");
+        keep();
     }
 
     private void form(int object, String text) {
         define(0, object, "<</Kind/Form>>");
         stream(0, object, text);
+        keep();
+    }
+
+    private void keptValue(int object, String value) {
+        define(0, object, value);
+        keep();
+    }
+
+    private void keptStream(int object, String data) {
+        stream(0, object, data);
+        keep();
     }
 
     private void content(String text) {
@@ -47,6 +59,7 @@ public final class ContentBounds extends Trial {
     }
 
     private void gives(String text, String want) {
+        back();
         content(text);
         idle("CONTENT " + text, want, x -> marks(x, 0, 0));
     }
@@ -236,7 +249,7 @@ public final class ContentBounds extends Trial {
         gives("0 8 1 9 B", "B 0 8 1 1");
         gives("-5 -5 20 20 B", "B 0 0 9 9");
         gives("0 0 9 9 B", "B 0 0 9 9");
-        define(0, 3, "<</Kind/Page/Box[-5 3 4 2]/Parts 30 R>>");
+        keptValue(3, "<</Kind/Page/Box[-5 3 4 2]/Parts 30 R>>");
         gives("-9 0 20 20 B", "B -5 3 4 2");
         gives("-1 3 1 1 B", "");
         gives("-2 4 9 9 B", "B -2 4 1 1");
@@ -323,17 +336,17 @@ public final class ContentBounds extends Trial {
         gives("/a X", "");
         gives("/AA X", "");
         gives("/B X " + DOT, DOT_MARK);
-        define(0, 32, "<</Kind/Form>>");
+        keptValue(32, "<</Kind/Form>>");
         gives("/B X " + DOT, DOT_MARK);
-        stream(0, 33, DOT);
+        keptStream(33, DOT);
         gives("/C X", "");
-        define(0, 33, "<</Kind/Forms>>");
-        stream(0, 33, DOT);
+        keptValue(33, "<</Kind/Forms>>");
+        keptStream(33, DOT);
         gives("/C X", "");
-        define(0, 33, "<</Kind(Form)>>");
-        stream(0, 33, DOT);
+        keptValue(33, "<</Kind(Form)>>");
+        keptStream(33, DOT);
         gives("/C X", "");
-        define(0, 3, "<</Kind/Page/Parts 30 R/Forms<</A[31 R]/B 31/C(31 R)/abcdef 31 R>>>>");
+        keptValue(3, "<</Kind/Page/Parts 30 R/Forms<</A[31 R]/B 31/C(31 R)/abcdef 31 R>>>>");
         gives("/A X /B X /C X", "");
         gives("/abcdef X", DOT_MARK);
         goOn("or BROKEN: nothing");
@@ -403,13 +416,13 @@ public final class ContentBounds extends Trial {
     private void formManyElse() {
         start("where nothing is done none is begun");
         page(9, 9);
-        define(0, 3, "<</Kind/Page/Parts[30 R 29 R 28 R]/Forms<</A 31 R/B 32 R/C 33 R/D 34 R>>>>");
-        stream(0, 29, times(30, "/Z X "));
-        stream(0, 28, times(2, "/C X "));
+        keptValue(3, "<</Kind/Page/Parts[30 R 29 R 28 R]/Forms<</A 31 R/B 32 R/C 33 R/D 34 R>>>>");
+        keptStream(29, times(30, "/Z X "));
+        keptStream(28, times(2, "/C X "));
         form(33, DOT);
         gives(times(30, "/Z X "), DOT_MARK + "|" + DOT_MARK);
         gives(times(30, "/B X "), DOT_MARK + "|" + DOT_MARK);
-        stream(0, 32, "");
+        keptStream(32, "");
         gives(times(30, "/B X "), DOT_MARK + "|" + DOT_MARK);
         goOn("too deep: none is begun");
         form(31, "/B X");
@@ -422,7 +435,7 @@ public final class ContentBounds extends Trial {
         goOn("one that is empty, or ends by a FAULT, is begun");
         form(32, "");
         form(31, "w");
-        stream(0, 29, times(31, "/A X "));
+        keptStream(29, times(31, "/A X "));
         gives(times(31, "/B X "), DOT_MARK + "|" + DOT_MARK);
         gives(times(32, "/B X "), DOT_MARK);
         gives(times(33, "/B X "), "");

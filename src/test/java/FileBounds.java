@@ -358,6 +358,7 @@ public final class FileBounds extends Trial {
 
     /** DOCUMENT 0 becomes one of two OBJECTS. */
     private void two(String second) {
+        back();
         repaired(body(1, "<</A [2 R]>>") + body(2, second) + "<</Root 1 R>>\n");
     }
 
@@ -436,8 +437,10 @@ public final class FileBounds extends Trial {
             kids.append((n - 3) % 12 == 0 ? (n > 3 ? "]" : "") + "/" + (char) ('A' + n / 12) + "[" : " ").append(n).append(" R");
         }
         define(0, 1, "<<" + kids + "]/Y 59 R/Z 60 R>>");
+        type(times(200, "s"));
         for (int n = 3; n < 3 + many; n++) {
-            stream(0, n, times(200, "s"));
+            int object = n;
+            does(x -> x.stream(0, object));
         }
         stream(0, 59, times(other, "y"));
         stream(0, 60, times(100, "z"));

@@ -195,6 +195,7 @@ public final class FilterBounds extends Trial {
 
     /** TEXT of a STREAM that has this in its BOOK, and these DATA. */
     private void textOf(String names, String data, String want) {
+        back();
         repaired(body(1, "<</Kind/Root>>") + body(3, names, data));
         idle("TEXT by " + names + " of " + data, want, x -> x.data(0, 3, true));
         idle("its DATA", data, x -> x.data(0, 3, false));

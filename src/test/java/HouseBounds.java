@@ -272,8 +272,10 @@ public final class HouseBounds extends Trial {
             argument("what " + what, x -> x.house(what));
         }
         goOn("the greatest");
-        for (int file = 0; file < 4; file++) {
-            file(file, times(6000, "x"));
+        file(0, times(6000, "x"));
+        for (int file = 1; file < 4; file++) {
+            int one = file;
+            does(x -> x.copyFile(one, 0));
         }
         idle("24000", 24000, x -> x.house(1));
         type(times(200, "x"));
@@ -311,16 +313,17 @@ public final class HouseBounds extends Trial {
             kids.append(n).append(" R ");
         }
         define(0, 1, "<</A[" + kids + "]/B[15 R 16 R 17 R 18 R 19 R 20 R 21 R 22 R 23 R 24 R 25 R 26 R]/C[27 R 28 R 29 R 30 R]>>");
+        type(times(200, "s"));
         for (int n = 3; n <= 30; n++) {
-            stream(0, n, times(200, "s"));
+            int object = n;
+            does(x -> x.stream(0, object));
         }
         refused("it is too long", x -> x.write(0, 0, false));
         idle("too long", true, Pagedocument::isSound);
-        for (int n = 31; n <= 60; n++) {
-            define(0, n, "1");
-        }
-        for (int n = 2; n <= 9; n++) {
-            define(0, n, "1");
+        type("1");
+        for (int n = 31; n <= 68; n++) {
+            int object = n <= 60 ? n : n - 59;
+            does(x -> x.define(0, object));
         }
         due("it can be WRITTEN", true, x -> x.write(0, 0, false) > 4000);
         refused("not with PACKS", x -> x.write(0, 0, true));
@@ -379,12 +382,7 @@ public final class HouseBounds extends Trial {
     }
 
     private void isDigested() {
-        Long[] want = new Long[1];
-        does(x -> {
-            want[0] = checksum(x);
-            return 0;
-        });
-        idle("checksum", want[0], Pagedocument::digest);
+        idle("checksum", checksum(again()), Pagedocument::digest);
     }
 
     private void digest() {
@@ -420,8 +418,10 @@ public final class HouseBounds extends Trial {
             x -> x.note(1, 0, 1, 1, 1), x -> x.title(1, 1, 1, 0), x -> x.field(1, 1, 1), x -> x.lock(1, 1, 1),
             x -> x.lock(0, 1, 7), x -> x.write(0, 0, true), x -> x.newPage(1, 1, 9, 9),
             x -> x.stream(0, 1), x -> x.drop(1, 1)};
+        keep();
         for (int k = 0; k < changes.length; k++) {
             Call change = changes[k];
+            back();
             due("digest is another one behind call " + k, true, x -> {
                 long before = x.digest();
                 change.on(x);
@@ -433,13 +433,17 @@ public final class HouseBounds extends Trial {
 
     private void calls() {
         start("An object is used for at most 512 calls");
-        for (int k = 0; k < 170; k++) {
+        for (int k = 0; k < 126; k++) {
             int page = k % 12;
+            boolean isNew = page % 6 == 0;
             does(x -> page == 0 ? x.fresh(0) : x.newPage(0, page - 1, 40, 40));
             does(x -> x.write(0, page % 4, page % 2 == 0));
-            does(x -> x.merge(1) < 0 ? x.fresh(1) : 0);
+            does(x -> isNew ? x.fresh(1) : x.house(0));
+            does(x -> isNew ? x.merge(1) : x.house(0));
         }
-        due("PAGES", 1, x -> x.ofDoc(0, 2));
-        isDigested();
+        due("PAGES", 5, x -> x.ofDoc(0, 2));
+        due("PAGES of the other one", 0, x -> x.ofDoc(1, 2));
+        due("undone", 3, Pagedocument::undo);
+        due("the 508th call", 4, x -> x.ofDoc(0, 2));
     }
 }

@@ -1,3 +1,4 @@
+import java.util.Arrays;
 import java.util.function.IntSupplier;
 import java.util.function.Supplier;
 
@@ -51,12 +52,18 @@ public final class PagedocumentTest {
         x.say(code, -1, -1, -1, -1, -1);
     }
 
-    /** Makes the LINE this text. */
+    /** Makes the LINE this text, six SIGNS a call. */
     private static void type(String text) {
-        say(300);
+        int[] codes = {300, -1, -1, -1, -1, -1};
         for (int k = 0; k < text.length(); k++) {
-            say(text.charAt(k));
+            int at = (k + 1) % 6;
+            codes[at] = text.charAt(k);
+            if (at == 5 && k + 1 < text.length()) {
+                x.say(codes[0], codes[1], codes[2], codes[3], codes[4], codes[5]);
+                Arrays.fill(codes, -1);
+            }
         }
+        x.say(codes[0], codes[1], codes[2], codes[3], codes[4], codes[5]);
     }
 
     private static String times(int many, String text) {
@@ -100,6 +107,7 @@ public final class PagedocumentTest {
     }
 
     private static int faultOfFile(String text) {
+        x = new Pagedocument();
         file(0, text);
         return x.faultOf(0);
     }
@@ -114,7 +122,6 @@ public final class PagedocumentTest {
         changesOfFiles();
         fresh();
         write();
-        limits();
         packs();
         update();
         read();
@@ -426,62 +433,6 @@ public final class PagedocumentTest {
         due("Size", whole(3).contains("/Size 1>>"), true);
         index("no DOCUMENT", () -> x.write(2, 0, false));
         index("no FILE", () -> x.write(0, 4, false));
-        start(15);
-        for (int n = 3; n <= 20; n++) {
-            define(0, n, "[" + (n < 20 ? (n + 1) + " R " : "") + times(4, "(" + times(40, "x") + ") ") + "]");
-            stream(0, n + 20, "");
-        }
-        define(0, 1, "<</A 3 R>>");
-        due("in 6000", x.write(0, 0, false) > 3000, true);
-        for (int n = 21; n <= 50; n++) {
-            define(0, n, "[" + (n + 1) + " R " + times(4, "(" + times(40, "x") + ") ") + "]");
-        }
-        define(0, 20, "[21 R " + times(4, "(" + times(40, "x") + ") ") + "]");
-        int before = x.size(0);
-        due("more than 6000", x.write(0, 0, false), -9);
-        due("the FILE stays", x.size(0), before);
-    }
-
-    /** Fills DOCUMENT 0 by rows of strings, so that WRITTEN it is somewhat shorter than told, and tells how long. */
-    private static int fillUpTo(int length) {
-        int written = 0;
-        for (int n = 3; n < 60 && written + 150 < length; n++) {
-            define(0, n, "[" + (n == 3 ? 60 : n - 1) + " R (" + times(40, "x") + ") (" + times(40, "y") + ")]");
-            define(0, 1, "<</Kind /Root /Pages 2 R /S " + n + " R>>");
-            written = x.write(0, 0, false);
-        }
-        return written;
-    }
-
-    private static void limits() {
-        start(15);
-        define(0, 60, "[()]");
-        int length = fillUpTo(6000);
-        int more = 6000 - length;
-        due("some are missing", more > 10 && more < 170, true);
-        String row = "[" + times(more / 43, "(" + times(40, "z") + ") ") + "(" + times(more % 43, "z");
-        define(0, 60, row + ")]");
-        due("6000", x.write(0, 0, false), 6000);
-        due("READ again", x.read(0, 1), x.ofDoc(0, 0));
-        define(0, 60, row + "z)]");
-        due("6001", x.write(0, 0, false), -9);
-        start(16);
-        define(0, 60, "[()]");
-        length = fillUpTo(5900);
-        int alone = x.copyFile(1, 0);
-        define(0, 60, "[(a)]");
-        x.write(0, 0, false);
-        define(0, 60, "[()]");
-        more = 6000 - x.update(0);
-        due("some are missing", more > 10 && more < 190 && alone == length, true);
-        define(0, 60, "[(a)]");
-        x.write(0, 0, false);
-        row = "[" + times(more / 43, "(" + times(40, "z") + ") ") + "(" + times(more % 43, "z");
-        define(0, 60, row + "z)]");
-        due("6001", x.update(0), -9);
-        define(0, 60, row + ")]");
-        due("6000", x.update(0), 6000);
-        due("READ again", x.read(0, 1), x.ofDoc(0, 0));
     }
 
     private static void packs() {

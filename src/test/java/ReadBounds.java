@@ -34,6 +34,7 @@ public final class ReadBounds extends Trial {
     }
 
     private void faultOf(String what, int want, String text) {
+        back();
         file(0, text);
         due(what, want, x -> x.faultOf(0));
         if (want != 0) {
@@ -399,6 +400,7 @@ public final class ReadBounds extends Trial {
     }
 
     private void lockIs(String lock, int want) {
+        back();
         file(0, tabled(NEW, LINES + "last\n<</Root 1 R" + lock + ">>\n"));
         due("READ with " + lock, 2, x -> x.read(0, 0));
         due("LOCK by " + lock, want < 0 ? 0 : 1, x -> x.ofDoc(0, 6));
@@ -438,6 +440,7 @@ public final class ReadBounds extends Trial {
     private static final String START = body(1, "<</Kind/Root>>");
 
     private void repairIs(String what, String text, int object, String want) {
+        back();
         file(0, START + text);
         does(x -> x.repair(0, 0));
         due(what, want, x -> x.object(0, object));
@@ -510,6 +513,7 @@ public final class ReadBounds extends Trial {
     }
 
     private void rootIs(String what, String text, int want) {
+        back();
         file(0, text);
         does(x -> x.repair(0, 0));
         due(what, want, x -> x.ofDoc(0, 3));
