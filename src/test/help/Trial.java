@@ -16,7 +16,7 @@ abstract class Trial {
     private static final String INDEX = "IndexOutOfBoundsException";
     private static final String ARGUMENT = "IllegalArgumentException";
     private static final String STATE = "IllegalStateException";
-    private static final String[] WORDS = {"/Kind ", "/Page", "/Tree", "/Kids ", "/Count ", "/Box ", "/Turn ", "/Parts ",
+    protected static final String[] WORDS = {"/Kind ", "/Page", "/Tree", "/Kids ", "/Count ", "/Box ", "/Turn ", "/Parts ",
         "/Forms ", "/Filter ", "/Form", "/Pages ", "/Root", "/Pack", "/Hex", "/Run", "/Back", "<<", ">>", " R", "/Notes ",
         "/Lines ", "/Fields "};
 
@@ -124,14 +124,15 @@ abstract class Trial {
     private static List<Object> seen(Pagedocument of) {
         List<Object> all = new ArrayList<>();
         all.add(of.digest());
-        for (int left = 0; left < 6; left++) {
+        Object undone = 0;
+        while (undone instanceof Integer && all.size() < 40) {
             all.add(of.update(0));
             all.add(of.update(1));
-            all.add(of.digest());
             all.add(of.write(0, 2, false));
             all.add(of.write(1, 3, false));
             all.add(of.digest());
-            all.add(answer(of, Pagedocument::undo));
+            undone = answer(of, Pagedocument::undo);
+            all.add(undone);
         }
         return all;
     }

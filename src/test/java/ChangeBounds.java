@@ -6,6 +6,7 @@ public final class ChangeBounds extends Trial {
         ChangeBounds bounds = new ChangeBounds();
         bounds.newPage();
         bounds.newPageRefused();
+        bounds.firstNumber();
         bounds.movePage();
         bounds.movePageRefused();
         bounds.dropPage();
@@ -68,10 +69,11 @@ public final class ChangeBounds extends Trial {
         due("7", 7, x -> x.newPage(0, 0, 1, 1));
         due("9", 9, x -> x.newPage(0, 0, 1, 1));
         goOn("IllegalArgumentException if at is not such one, or w or h not 1 to 40");
+        does(x -> x.newPage(1, 0, 1, 1));
         argument("at", x -> x.newPage(0, 7, 1, 1));
         argument("at", x -> x.newPage(0, -1, 1, 1));
         argument("at", x -> x.newPage(0, Integer.MAX_VALUE, 1, 1));
-        argument("at of none", x -> x.newPage(1, 1, 1, 1));
+        argument("at behind the only one", x -> x.newPage(1, 2, 1, 1));
         argument("w", x -> x.newPage(0, 0, 0, 1));
         argument("w", x -> x.newPage(0, 0, 41, 1));
         argument("w", x -> x.newPage(0, 0, -1, 1));
@@ -101,6 +103,42 @@ public final class ChangeBounds extends Trial {
         argument("exceptions go ahead", x -> x.newPage(0, 1, 1, 1));
         closed(1);
         due("the LOCK lets it", 3, x -> x.newPage(0, 0, 1, 1));
+    }
+
+    /** DOCUMENT 0 becomes one with ROOT 9 and a PAGE 8, and no OBJECTS of small numbers. */
+    private void ninth(String pages) {
+        repaired(body(9, "<</Kind/Root/Pages " + pages + ">>") + body(7, "<</Kind/Tree/Kids[8 R]>>") + body(8, "<</Kind/Page>>"));
+    }
+
+    private void firstNumber() {
+        start("A new OBJECT has the smallest number that none has: 1");
+        type("0 0 1 1 B");
+        ninth("7 R");
+        due("newPage", 1, x -> x.newPage(0, 1, 1, 1));
+        ninth("8 R");
+        due("newPage behind its TREE", 2, x -> x.newPage(0, 1, 1, 1));
+        due("TREE", "<</Count 2 /Kids [8 R 2 R] /Kind /Tree>>", x -> x.object(0, 1));
+        ninth("7 R");
+        due("addPart", 1, x -> x.addPart(0, 0));
+        due("form", 2, x -> x.form(0, 0, 0));
+        ninth("7 R");
+        type("0 0 1 1 B");
+        due("form", 1, x -> x.form(0, 0, 0));
+        ninth("7 R");
+        type("0 0 1 1 B");
+        does(x -> x.stream(0, 2));
+        define(0, 8, "<</Kind/Page/Parts 2 R>>");
+        due("black", 1, x -> x.black(0, 0, 0, 0, 1, 1));
+        due("its CONTENT", "<<>> data", x -> x.object(0, 1));
+        does(x -> x.newPage(1, 0, 5, 5));
+        due("merge", 2, x -> x.merge(0));
+        due("3 is that of b", "<</Box [0 0 5 5] /Kind /Page>>", x -> x.object(0, 3));
+        ninth("7 R");
+        due("merge", 2, x -> x.merge(0));
+        due("1 is that of b", "<</Box [0 0 5 5] /Kind /Page>>", x -> x.object(0, 1));
+        ninth("7 R");
+        does(x -> x.write(0, 0, true));
+        due("a PACK", true, x -> whole(x, 0).contains("table\n1 4\n7 p1.0\n8 p1.1\n9 p1.2\nlast\n<</Root 9 R /Size 10>>"));
     }
 
     private void movePage() {
@@ -493,14 +531,18 @@ public final class ChangeBounds extends Trial {
         due("a CHANGE as well", 4, x -> x.house(2));
         due("it can be undone alone", 3, Pagedocument::undo);
         due("nothing else", "1 1 2 2 B w", x -> x.content(0, 0));
-        goOn("\"Forms\" of the PAGE itself becomes an empty BOOK, also where it has none itself");
+        goOn("of a B \"x y w h B\"");
+        page("1 2 3 4 B 0 0 1 1 B 10 11 5 6 B");
+        due("the second", 1, x -> x.black(0, 0, 0, 0, 1, 1));
+        due("those left", "1 2 3 4 B\n10 11 5 6 B", x -> x.content(0, 0));
+        start("\"Forms\" of the PAGE itself becomes an empty BOOK, also where it has none itself");
         define(0, 31, "<</Kind/Form>>");
         stream(0, 31, "0 0 1 1 B");
         define(0, 2, "<</Kind/Tree/Kids[3 R]/Forms<</A 31 R>>>>");
         define(0, 3, "<</Kind/Page/Parts[30 R]>>");
         stream(0, 30, "/A X 5 5 1 1 B");
         due("of a FORM", 1, x -> x.black(0, 0, 0, 0, 2, 2));
-        due("PAGE", "<</Forms <<>> /Kind /Page /Parts [6 R]>>", x -> x.object(0, 3));
+        due("PAGE", "<</Forms <<>> /Kind /Page /Parts [4 R]>>", x -> x.object(0, 3));
         due("what is left", "5 5 1 1 B", x -> x.content(0, 0));
     }
 

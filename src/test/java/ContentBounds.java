@@ -379,6 +379,11 @@ public final class ContentBounds extends Trial {
         gives("/A X (c) T", "L c 0 0 1 1");
         form(31, "1");
         gives("/A X " + DOT, DOT_MARK);
+        form(32, DOT);
+        gives("/A X /B X", DOT_MARK);
+        form(31, "q q q q q");
+        form(32, "q q q q " + DOT);
+        gives("/A X /B X", DOT_MARK);
         faultAt("1 2 /A X", 7);
     }
 

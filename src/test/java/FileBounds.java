@@ -211,6 +211,10 @@ public final class FileBounds extends Trial {
         due("60", 60, x -> x.fresh(1));
         due("OBJECTS", 2, x -> x.ofDoc(1, 0));
         due("ROOT", 1, x -> x.ofDoc(1, 3));
+        file(3, body(9, "<</Kind/Root>>"));
+        does(x -> x.repair(3, 0));
+        due("one of ROOT 9", 1, x -> x.fresh(0));
+        due("ROOT is 1", 1, x -> x.ofDoc(0, 3));
         due("LOCK", 0, x -> x.ofDoc(1, 6));
         due("HOME", -1, x -> x.ofDoc(1, 8));
         due("OBJECT 1", "<</Kind /Root /Pages 2 R>>", x -> x.object(1, 1));
@@ -260,6 +264,10 @@ public final class FileBounds extends Trial {
         due("packed the same", none.length(), x -> x.write(0, 1, true));
         due("FILE", none, x -> whole(x, 1));
         goOn("if a STREAM of Kind /Pack is one of them, nothing is: -9");
+        define(0, 1, "<</Kind/Pack>>");
+        stream(0, 1, "");
+        refused("the ROOT", x -> x.write(0, 0, false));
+        refused("the ROOT in an UPDATE", x -> x.update(0));
         define(0, 1, "<</S 5 R>>");
         define(0, 5, "<</Kind /Pack>>");
         due("a BOOK of that Kind is WRITTEN", true, x -> x.write(0, 0, false) > 0);
@@ -523,6 +531,12 @@ public final class FileBounds extends Trial {
         define(0, 1, "<</N 3 R>>");
         due("behind an UPDATE", true, x -> x.update(0) > 0);
         due("it is new again", true, x -> whole(x, 0).lastIndexOf("end\n3 o\n7\nend\ntable\n") > whole(x, 0).lastIndexOf("4 o"));
+        goOn("also number 1");
+        repaired(body(1, "(x)") + body(9, "<</Kind/Root>>"));
+        does(x -> x.write(0, 0, false));
+        define(0, 9, "<</A 1 R>>");
+        does(x -> x.update(0));
+        due("1 is new", true, x -> whole(x, 0).contains("%E\n1 o\n(x)\nend\n9 o\n"));
         goOn("HOME has, behind READ, all OBJECTS that READ made");
         String bodies = NEW + body(9, "7");
         file(1, tabled(bodies, "table\n1 4\n2 39\n9 81\n" + TRAILER));

@@ -126,6 +126,7 @@ public final class FilterBounds extends Trial {
         made(BACK, "", "");
         made(BACK, "aaa", "aaa");
         made(BACK, "aaaa", "a^13");
+        made(BACK, times(9, "a"), "a^18");
         made(BACK, times(10, "a"), "a^19");
         made(BACK, times(11, "a"), "a^19a");
         made(BACK, times(12, "a"), "a^19aa");
@@ -136,7 +137,10 @@ public final class FilterBounds extends Trial {
         made(BACK, "abcabc", "abc^33");
         made(BACK, "abcdefghiabc", "abcdefghi^93");
         made(BACK, "abcdefghijabc", "abcdefghijabc");
-        made(BACK, "abcdefghiabcdefghi", "abcdefghi^99");
+        for (int many = 3; many <= 9; many++) {
+            made(BACK, "abcdefghi" + "abcdefghi".substring(0, many), "abcdefghi^9" + many);
+            made(BACK, "abcdefghi" + "abcdefghi".substring(0, many) + "-", "abcdefghi^9" + many + "-");
+        }
         made(BACK, "abcdefghiabcdefghiab", "abcdefghi^99ab");
         made(BACK, "abcdefghiabcdefghiabc", "abcdefghi^99^93");
         goOn("so far back as is least, of the longest ones");
@@ -169,7 +173,7 @@ public final class FilterBounds extends Trial {
         goOn("a SIGN that can not stand there, a digit too few");
         for (String rest : new String[] {"01", "10", "09", "90", "0", "1", "", "1a", "a1", "1:", ":1", "1/", "/1", "^1",
             "1^", "1 ", " 1"}) {
-            undone(BACK, "aaaaaaaaa^" + rest, "-");
+            undone(BACK, "aaaaaaaaaaaa^" + rest, "-");
         }
         goOn("more than 500 SIGNS");
         undone(BACK, "a" + times(55, "^19") + "aaaa", times(500, "a"));

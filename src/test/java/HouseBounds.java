@@ -18,7 +18,6 @@ public final class HouseBounds extends Trial {
         bounds.soundLimits();
         bounds.digest();
         bounds.digestParts();
-        bounds.calls();
         bounds.end();
     }
 
@@ -46,28 +45,52 @@ public final class HouseBounds extends Trial {
 
     private void undoKinds() {
         start("CHANGES: all methods that are said to be some, if they do not tell a number below 0");
-        type("5");
-        does(x -> x.stream(0, 9));
-        does(x -> x.newPage(0, 0, 9, 9));
-        does(x -> x.newPage(0, 0, 9, 9));
         does(x -> x.field(0, 0, 9));
         does(x -> x.write(0, 0, false));
+        type("0 0 1 1 B");
+        does(x -> x.stream(0, 9));
+        does(x -> x.newPage(0, 0, 9, 9));
+        does(x -> x.addPart(0, 0));
+        does(x -> x.newPage(0, 0, 9, 9));
         does(x -> x.drop(0, 60));
-        Call[] changes = {x -> x.fresh(1), x -> x.read(0, 1), x -> x.repair(0, 1), x -> x.define(0, 9), x -> x.stream(0, 9),
-            x -> x.drop(0, 60), x -> x.filter(0, 9, -1, -1, -1), x -> x.sweep(1), x -> x.newPage(0, 0, 1, 1),
-            x -> x.movePage(0, 0, 0), x -> x.dropPage(0, 0), x -> x.turnPage(0, 0, 0), x -> x.boxPage(0, 0, 0, 0, 9, 9),
-            x -> x.addPart(0, 0), x -> x.addText(0, 0, 0, 0, 1, 0), x -> x.addBox(0, 0, 0, 0, 1, 1), x -> x.form(0, 0, 0),
-            x -> x.black(0, 0, 50, 50, 1, 1), x -> x.merge(0), x -> x.split(0, 0, 0), x -> x.note(0, 0, 0, 0, 0),
-            x -> x.title(0, 0, 0, 0), x -> x.field(0, 0, 9), x -> x.fill(0, 0, 0), x -> x.lock(0, -1, 0)};
+        type("5");
+        keep();
+        Call[] changes = {x -> x.fresh(0), x -> x.read(0, 1), x -> x.repair(0, 1), x -> x.define(0, 9), x -> x.define(1, 60),
+            x -> x.stream(0, 9), x -> x.stream(0, 1), x -> x.drop(0, 9), x -> x.drop(0, 1), x -> x.filter(0, 9, 0, -1, -1),
+            x -> x.sweep(0), x -> x.newPage(0, 0, 1, 1), x -> x.movePage(0, 0, 1), x -> x.dropPage(0, 0), x -> x.turnPage(0, 0, 1),
+            x -> x.boxPage(0, 0, 0, 0, 8, 8), x -> x.addPart(0, 0), x -> x.addText(0, 0, 0, 0, 1, 0),
+            x -> x.addBox(0, 0, 0, 0, 1, 1), x -> x.form(0, 0, 0), x -> x.black(0, 1, 0, 0, 1, 1), x -> x.merge(1),
+            x -> x.split(0, 0, 0), x -> x.note(0, 0, 0, 0, 0), x -> x.title(0, 0, 0, 0), x -> x.field(0, 1, 9),
+            x -> x.fill(0, 0, 1), x -> x.lock(0, 5, 5)};
         for (int k = 0; k < changes.length; k++) {
+            Call change = changes[k];
+            back();
             does(Pagedocument::undo);
-            due("three are left", 3, x -> x.house(2));
-            does(changes[k]);
+            Object[] before = new Object[1];
+            due("three are left ahead of " + k, 3, x -> x.house(2));
+            does(x -> {
+                before[0] = x.digest();
+                return 0;
+            });
+            does(change);
+            due("CHANGE " + k, 4, x -> x.house(2));
+            due("another DOCUMENT by " + k, true, x -> !before[0].equals(x.digest()));
+            due("taken back", 3, Pagedocument::undo);
+            due("as it was ahead of " + k, true, x -> before[0].equals(x.digest()));
+        }
+        goOn("also if nothing is other then");
+        Call[] idle = {x -> x.fresh(1), x -> x.drop(0, 60), x -> x.sweep(1), x -> x.movePage(0, 0, 0), x -> x.turnPage(0, 0, 0),
+            x -> x.black(0, 0, 50, 50, 1, 1), x -> x.merge(0), x -> x.lock(0, -1, 0)};
+        for (int k = 0; k < idle.length; k++) {
+            back();
+            does(Pagedocument::undo);
+            does(idle[k]);
             due("CHANGE " + k, 4, x -> x.house(2));
         }
+        back();
+        does(x -> x.copyFile(1, 0));
         goOn("all else is none");
         does(Pagedocument::undo);
-        due("three are left", 3, x -> x.house(2));
         Call[] others = {x -> x.say(97, -1, -1, -1, -1, -1), x -> x.line(), x -> x.fault(), x -> x.written(), x -> x.filtered(0, false),
             x -> x.size(0), x -> x.text(0, 0), x -> x.place(0, 0), x -> x.hurt(0, 0, 37), x -> x.put(3, 0), x -> x.cut(3, 0),
             x -> x.copyFile(3, 0), x -> x.write(1, 1, true), x -> x.update(1), x -> x.faultOf(0), x -> x.object(0, 1),
@@ -152,6 +175,24 @@ public final class HouseBounds extends Trial {
         does(x -> x.lock(0, 5, 0));
         does(Pagedocument::undo);
         idle("no LOCK then", 0, x -> x.update(0));
+        does(x -> x.lock(0, 5, 1));
+        does(x -> x.write(0, 0, false));
+        for (int[] other : new int[][] {{6, 1}, {5, 2}, {-1, 0}}) {
+            does(x -> x.lock(0, other[0], other[1]));
+            does(x -> x.write(0, 1, false));
+            idle("the new LOCK", 0, x -> x.update(0));
+            does(Pagedocument::undo);
+            idle("the LOCK that it had", 0, x -> x.update(0));
+        }
+        start("with the TABLE that it had there");
+        does(x -> x.write(0, 0, false));
+        define(0, 1, "<</A 2 R/B(longer than it was)>>");
+        does(x -> x.write(0, 1, false));
+        does(Pagedocument::undo);
+        does(x -> x.lock(0, 1, 1));
+        due("an UPDATE", true, x -> x.update(0) > 0);
+        due("Prev", true, x -> whole(x, 0).contains("/Prev 81 /Root"));
+        due("FAULT", 0, x -> x.faultOf(0));
     }
 
     private void undoStays() {
@@ -248,6 +289,17 @@ public final class HouseBounds extends Trial {
         idle("no 25th", 1, Pagedocument::alike);
         stream(1, 31, times(6, "0 0 1 1 B ") + "0 0 1 2 B 1 1 P (a) T");
         idle("another 23rd", 0, Pagedocument::alike);
+        stream(0, 30, "(c) T");
+        stream(0, 31, "");
+        stream(1, 31, "");
+        for (String other : new String[] {"(f) T", "0 0 1 1 B", "(c) T (c) T", ""}) {
+            stream(1, 30, other);
+            idle("another first: " + other, 0, Pagedocument::alike);
+        }
+        stream(1, 30, "(c) T");
+        idle("the same first", 1, Pagedocument::alike);
+        stream(0, 30, times(16, "0 0 1 1 B "));
+        stream(0, 31, times(7, "0 0 1 1 B ") + "1 1 P (a) T (b) T");
         stream(1, 30, "0 0 1 2 B " + times(15, "0 0 1 1 B "));
         stream(1, 31, times(7, "0 0 1 1 B ") + "1 1 P (a) T");
         idle("another first", 0, Pagedocument::alike);
@@ -429,21 +481,5 @@ public final class HouseBounds extends Trial {
             });
             isDigested();
         }
-    }
-
-    private void calls() {
-        start("An object is used for at most 512 calls");
-        for (int k = 0; k < 126; k++) {
-            int page = k % 12;
-            boolean isNew = page % 6 == 0;
-            does(x -> page == 0 ? x.fresh(0) : x.newPage(0, page - 1, 40, 40));
-            does(x -> x.write(0, page % 4, page % 2 == 0));
-            does(x -> isNew ? x.fresh(1) : x.house(0));
-            does(x -> isNew ? x.merge(1) : x.house(0));
-        }
-        due("PAGES", 5, x -> x.ofDoc(0, 2));
-        due("PAGES of the other one", 0, x -> x.ofDoc(1, 2));
-        due("undone", 3, Pagedocument::undo);
-        due("the 508th call", 4, x -> x.ofDoc(0, 2));
     }
 }

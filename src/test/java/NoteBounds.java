@@ -129,7 +129,9 @@ public final class NoteBounds extends Trial {
         due("ROOT", "<</Kind /Root /Lines [<</Deep 0 /Title (a) /To 3 R>>] /Pages 2 R>>", x -> x.object(0, 1));
         due("Deep 3", 2, x -> x.title(0, 3, 999, 0));
         due("told", ">>>ddcbd 0", x -> x.lineOf(0, 1));
-        goOn("how many LINES, not what else stands there");
+        start("how many LINES, not what else stands there");
+        does(x -> x.newPage(0, 0, 9, 9));
+        does(x -> x.newPage(0, 0, 9, 9));
         define(0, 1, "<</Pages 2 R/Lines[5 <<>> <</Deep 4/Title()/To 3 R>>]>>");
         due("one", 1, x -> x.title(0, 0, 0, 0));
         due("What is not so stays", "<</Lines [5 <<>> <</Deep 4 /Title () /To 3 R>> <</Deep 0 /Title (a) /To 4 R>>] /Pages 2 R>>",
@@ -152,8 +154,10 @@ public final class NoteBounds extends Trial {
         does(x -> x.newPage(0, 0, 9, 9));
         for (int k = 1; k <= 12; k++) {
             int many = k;
-            due("the next", many, x -> x.title(0, 0, many, 0));
+            due("the next", many, x -> x.title(0, 0, 0, 0));
+            due("told", "a 0", x -> x.lineOf(0, many - 1));
         }
+        index("no 13th", x -> x.lineOf(0, 12));
         refused("the 13th", x -> x.title(0, 0, 0, 0));
         define(0, 1, "<</Pages 2 R/Lines[" + times(12, "1 ") + "]>>");
         refused("the 13th of what are none", x -> x.title(0, 0, 0, 0));

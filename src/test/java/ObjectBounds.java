@@ -143,6 +143,14 @@ public final class ObjectBounds extends Trial {
             idle("OBJECT " + n, due[n - 3], x -> x.isReached(0, object));
         }
         idle("60", true, x -> x.isReached(0, 60));
+        goOn("behind a STRING with backslashes");
+        for (String text : new String[] {"(\\))", "(\\()", "(\\\\)", "(a\\\\\\))", "()", "(6 R)"}) {
+            define(0, 1, "[" + text + " 3 R" + text + "10 R]");
+            idle("OBJECT 3 behind " + text, true, x -> x.isReached(0, 3));
+            idle("OBJECT 10 behind " + text, true, x -> x.isReached(0, 10));
+            idle("OBJECT 6 in it", false, x -> x.isReached(0, 6));
+        }
+        define(0, 1, "<</A[<</A[<</A 3 R>>]>>]/B 4 R/C[[[[5 R]]]]/D(6 R)/E 7/F[8 -9]/G<</H 60 R>>>>");
         goOn("of a STREAM its BOOK, not its DATA");
         define(0, 4, "<</A 6 R>>");
         stream(0, 4, "7 R");
@@ -299,10 +307,16 @@ public final class ObjectBounds extends Trial {
         due("without the ROOT all", 3, x -> x.sweep(0));
         due("none is left", 0, x -> x.ofDoc(0, 0));
         due("none of none", 0, x -> x.sweep(0));
+        type("1");
         for (int n = 1; n <= 60; n++) {
-            define(0, n, "1");
+            int object = n;
+            does(x -> x.define(0, object));
         }
         due("all but the ROOT", 59, x -> x.sweep(0));
+        repaired(body(1, "(x)") + body(60, "<</Kind/Root>>") + body(2, "(y)"));
+        due("all but a ROOT of number 60", 2, x -> x.sweep(0));
+        due("1 went", "", x -> x.object(0, 1));
+        due("60 stays", "<</Kind /Root>>", x -> x.object(0, 60));
     }
 
     private void sweepRefused() {

@@ -21,6 +21,7 @@ public final class ReadBounds extends Trial {
         bounds.packs();
         bounds.packPlaces();
         bounds.roots();
+        bounds.cuts();
         bounds.sequence();
         bounds.reads();
         bounds.locks();
@@ -62,7 +63,8 @@ public final class ReadBounds extends Trial {
         for (String number : new String[] {"81", "081", "0081"}) {
             faultOf(number, 0, ahead + "start\n" + number + "\n%E\n");
         }
-        for (String number : new String[] {"", "00081", " 81", "81 ", "-81", "8a", "8 1", "x", "81\n"}) {
+        for (String number : new String[] {"", "00081", " 81", "81 ", "-81", "8a", "8 1", "x", "81\n",
+            "8:", ":1", "7;", "/1"}) {
             faultOf(number, 2, ahead + "start\n" + number + "\n%E\n");
         }
         for (String end : new String[] {"start\n81\n%E", "start\n81\n%E\n\n", "start\n81\n%e\n", "start\n81\n%E \n",
@@ -167,6 +169,9 @@ public final class ReadBounds extends Trial {
         faultOf("Prev 81", 0, tabled(older, "table\nlast\n<</Root 1 R/Prev 81>>\n"));
         faultOf("Prev 0081", 0, tabled(older, "table\nlast\n<</Root 1 R/Prev 0081>>\n"));
         faultOf("Prev null", 6, tabled(older, "table\nlast\n<</Root 1 R/Prev null>>\n"));
+        String early = tabled("%D1\n" + body(1, "null"), "table\n1 4\nlast\n<</Root 1 R>>\n");
+        faultOf("Prev 17", 0, tabled(early, "table\nlast\n<</Root 1 R/Prev 17>>\n"));
+        faultOf("Prev 17 R", 4, tabled(early, "table\nlast\n<</Root 1 R/Prev 17 R>>\n"));
         goOn("ahead of this one");
         faultOf("itself", 4, tabled(older, "table\nlast\n<</Root 1 R/Prev " + older.length() + ">>\n"));
         String first = NEW + LINES + "last\n<</Root 1 R/Prev 141>>\nstart\n81\n%E\n";
@@ -303,6 +308,8 @@ public final class ReadBounds extends Trial {
         packFault("packed itself", 5, PAIR, "1 p9.0\n9 p9.0\n");
         packFault("a wrong place", 5, PAIR, "1 p9.0\n9 5\n");
         packFault("number 0", 5, PAIR, "1 p0.0\n9 4\n");
+        faultOf("number 60", 0, tabled("%D1\n" + body(60, "/Kind/Pack", PAIR), "table\n1 p60.0\n60 4\nlast\n<</Root 1 R>>\n"));
+        faultOf("number 1", 0, tabled("%D1\n" + body(1, "/Kind/Pack", PAIR), "table\n1 4\n2 p1.1\nlast\n<</Root 2 R>>\n"));
         packFault("number 60, not told", 5, PAIR, "1 p60.0\n9 4\n");
         packFault("number 61", 5, PAIR, "1 p61.0\n9 4\n");
         packFault("number 9999", 5, PAIR, "1 p9999.0\n9 4\n");
@@ -359,6 +366,20 @@ public final class ReadBounds extends Trial {
         faultOf("packed", 0, packed("/Kind/Pack", PAIR, "1 p9.0\n9 4\n"));
         faultOf("number 60", 0, tabled("%D1\n" + body(60, "null"), "table\n60 4\nlast\n<</Root 60 R>>\n"));
         faultOf("no BOOK", 0, tabled("%D1\n" + body(1, "(x)"), "table\n1 4\nlast\n<</Root 1 R>>\n"));
+    }
+
+    private void cuts() {
+        start("a FILE that was cut");
+        String whole = tabled(NEW, LINES + TRAILER);
+        for (int by = 1; by < whole.length(); by++) {
+            int length = whole.length() - by;
+            back();
+            file(0, whole);
+            does(x -> x.cut(0, length));
+            due("FAULT of " + length, length < 4 ? 1 : 2, x -> x.faultOf(0));
+            int bodies = length < 39 ? 0 : length < 81 ? 1 : 2;
+            due("REPAIR of " + length, bodies == 0 ? -9 : bodies, x -> x.repair(0, 0));
+        }
     }
 
     private void sequence() {
@@ -459,6 +480,9 @@ public final class ReadBounds extends Trial {
         repairIs("60", "60 o\n5\nend\n", 60, "5");
         file(0, START + "0 o\n5\nend\n61 o\n5\nend\n9999 o\n5\nend\n");
         due("0 and 61", 1, x -> x.repair(0, 0));
+        repairIs("in what has number 0", body(0, "", "\n3 o\n5\nend\n"), 3, "5");
+        repairIs("in what has number 61", body(61, "", "\n3 o\n5\nend\n"), 3, "5");
+        repairIs("a colon is no digit", "3: o\n5\nend\n", 40, "");
         goOn("of a number that came already the later one counts");
         repairIs("the later one", "3 o\n5\nend\n3 o\n6\nend\n", 3, "6");
         repairIs("the last whole one", "3 o\n5\nend\n3 o\n6\nend\n3 o\n7\n", 3, "6");
@@ -493,6 +517,7 @@ public final class ReadBounds extends Trial {
         repairIs("one", body(9, "/Kind/Pack", "4 5\n"), 4, "5");
         repairIs("filtered", body(9, "/Kind/Pack/Filter/Run", "4 ~35\n"), 4, "555");
         repairIs("60", body(60, "/Kind/Pack", "59 5\n"), 59, "5");
+        rootIs("1", body(1, "/Kind/Pack", "4 <</Kind/Root>>\n"), 4);
         repairIs("READ as a BODY", body(9, "/Kind/Pack", "0004 \n[ 5\n]\n"), 4, "[5]");
         repairIs("the last line without NEWLINE", body(9, "/Kind/Pack", "4 5"), 4, "");
         repairIs("ahead of what is not right", body(9, "/Kind/Pack", "4 5\n61 5\n3 6\n"), 4, "5");
@@ -524,6 +549,8 @@ public final class ReadBounds extends Trial {
         String two = START + body(3, "(x)");
         rootIs("a TRAILER", two + "<</Root 3 R>>\n", 3);
         rootIs("the last one", two + "<</Root 1 R>>\n<</Root 3 R>>\n", 3);
+        rootIs("the last one, of a smaller number", two + body(2, "(y)") + "<</Root 3 R>>\n<</Root 2 R>>\n", 2);
+        rootIs("the last one, of the smallest number", two + "<</Root 3 R>>\n<</Root 1 R>>\n", 1);
         rootIs("ahead of all", "<</Root 3 R>>\n" + two, 3);
         rootIs("BLANKS ahead", two + "   <</Root 3 R>>\n", 3);
         rootIs("NEWLINES ahead", two + "\n \n<</Root 3 R>>\n", 3);

@@ -14,6 +14,7 @@ public final class ValueBounds extends Trial {
         bounds.writtenForms();
         bounds.readPasses();
         bounds.tooEarly();
+        bounds.shorter();
         bounds.firstWrong();
         bounds.tooMany();
         bounds.rest();
@@ -222,6 +223,28 @@ public final class ValueBounds extends Trial {
         }
     }
 
+    private void shorter() {
+        start("the length, also if there were more SIGNS behind it");
+        for (String text : new String[] {"null", "true", "false", "(a)", "(\\()", "[1]", "[]", "<<>>", "<</A 1>>", "/A", "-1", "[1 2]",
+            "<</A[]>>", "[[]]", "[()]"}) {
+            back();
+            type(text);
+            due("FAULT of all", -1, Pagedocument::fault);
+            does(x -> x.say(301, -1, -1, -1, -1, -1));
+            due("FAULT without the last SIGN of " + text, text.length() - 1, Pagedocument::fault);
+        }
+        for (String text : new String[] {"3 R", "12", "/AB", "1  "}) {
+            back();
+            type(text);
+            String left = text.equals("3 R") ? "3" : text.substring(0, text.length() - 1).trim();
+            does(x -> x.say(301, -1, -1, -1, -1, -1));
+            due("WRITTEN without the last SIGN of " + text, left, Pagedocument::written);
+        }
+        back();
+        type("3 R");
+        due("an INTEGER and a BLANK", "3", x -> x.say(301, -1, -1, -1, -1, -1) == 2 ? x.written() : "?");
+    }
+
     private void firstWrong() {
         start("A FAULT is told as the place of the first SIGN that can not stand there");
         for (String text : new String[] {"x", "R", ")", "]", ">", "\\", "%D1", "N", "T"}) {
@@ -303,7 +326,10 @@ public final class ValueBounds extends Trial {
     private void said() {
         start("codes of SIGNS; 200 to 222; 300 all go; 301 the last SIGN goes; NONE nothing");
         due("NONE", 0, x -> x.say(-1, -1, -1, -1, -1, -1));
-        due("the last SIGN of none", 0, x -> x.say(301, 301, -1, -1, -1, -1));
+        due("the last SIGN of none", 0, x -> x.say(301, -1, -1, -1, -1, -1));
+        due("the last two of none", 0, x -> x.say(301, 301, -1, -1, -1, -1));
+        due("the last SIGN of none, and one", 1, x -> x.say(301, 97, -1, -1, -1, -1));
+        due("the last SIGN of one", 0, x -> x.say(301, -1, -1, -1, -1, -1));
         due("one behind the other", 6, x -> x.say(97, 98, 99, 100, 101, 102));
         due("LINE", "abcdef", Pagedocument::line);
         due("the last one goes", 5, x -> x.say(301, -1, -1, -1, -1, -1));
@@ -324,13 +350,10 @@ public final class ValueBounds extends Trial {
 
     private void saidWords() {
         start("200 \"/Kind \" to 222 \"/Fields \"");
-        String[] words = {"/Kind ", "/Page", "/Tree", "/Kids ", "/Count ", "/Box ", "/Turn ", "/Parts ", "/Forms ",
-            "/Filter ", "/Form", "/Pages ", "/Root", "/Pack", "/Hex", "/Run", "/Back", "<<", ">>", " R", "/Notes ",
-            "/Lines ", "/Fields "};
-        for (int k = 0; k < words.length; k++) {
+        for (int k = 0; k < WORDS.length; k++) {
             int code = 200 + k;
-            due("length of " + code, words[k].length(), x -> x.say(300, code, -1, -1, -1, -1));
-            due("word of " + code, words[k], Pagedocument::line);
+            due("length of " + code, WORDS[k].length(), x -> x.say(300, code, -1, -1, -1, -1));
+            due("word of " + code, WORDS[k], Pagedocument::line);
         }
     }
 
@@ -347,6 +370,16 @@ public final class ValueBounds extends Trial {
         due("all go ahead of it", 6, x -> x.say(300, 200, -1, -1, -1, -1));
         type(times(194, "a"));
         due("a word of six", 200, x -> x.say(200, -1, -1, -1, -1, -1));
+        for (int k = 200; k <= 222; k++) {
+            int code = k;
+            back();
+            type(times(200 - WORDS[k - 200].length(), "a"));
+            due("200 by " + code, 200, x -> x.say(code, -1, -1, -1, -1, -1));
+            type(times(201 - WORDS[k - 200].length(), "a"));
+            state("201 by " + code, x -> x.say(code, -1, -1, -1, -1, -1));
+        }
+        start("nothing of it is typed");
+        type(times(200, "a"));
         due("one goes", 199, x -> x.say(301, -1, -1, -1, -1, -1));
         state("a word of two", x -> x.say(218, -1, -1, -1, -1, -1));
         type(times(197, "a"));
