@@ -363,6 +363,9 @@ public final class ChangeBounds extends Trial {
         define(0, 3, "<</Kind/Page/Parts 60 R>>");
         due("behind a REF", 6, x -> x.addPart(0, 0));
         due("PAGE", "<</Kind /Page /Parts [60 R 6 R]>>", x -> x.object(0, 3));
+        define(0, 3, "<</Kind/Page/Parts 1 R>>");
+        due("behind a REF to 1", "<</Kind /Page /Parts [1 R 7 R]>>", x -> x.addPart(0, 0) == 7 ? x.object(0, 3) : "?");
+        does(Pagedocument::undo);
         define(0, 3, "<</Kind/Page/Parts[]>>");
         due("an empty ROW", 7, x -> x.addPart(0, 0));
         due("PAGE", "<</Kind /Page /Parts [7 R]>>", x -> x.object(0, 3));

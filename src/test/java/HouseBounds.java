@@ -45,13 +45,11 @@ public final class HouseBounds extends Trial {
 
     private void undoKinds() {
         start("CHANGES: all methods that are said to be some, if they do not tell a number below 0");
-        does(x -> x.field(0, 0, 9));
+        file(0, body(1, "<</Kind/Root/Pages 2 R/Fields<</A<</Most 9/Value()>>>>>>") + body(2, "<</Kind/Tree/Kids[3 R 4 R]>>")
+                + body(3, "<</Kind/Page>>") + body(4, "<</Kind/Page/Parts 5 R>>") + body(5, "", "0 0 1 1 B") + body(9, "", "x"));
+        does(x -> x.repair(0, 0));
         does(x -> x.write(0, 0, false));
-        type("0 0 1 1 B");
-        does(x -> x.stream(0, 9));
-        does(x -> x.newPage(0, 0, 9, 9));
-        does(x -> x.addPart(0, 0));
-        does(x -> x.newPage(0, 0, 9, 9));
+        does(x -> x.drop(0, 60));
         does(x -> x.drop(0, 60));
         type("5");
         keep();
@@ -65,7 +63,6 @@ public final class HouseBounds extends Trial {
         for (int k = 0; k < changes.length; k++) {
             Call change = changes[k];
             back();
-            does(Pagedocument::undo);
             Object[] before = new Object[1];
             due("three are left ahead of " + k, 3, x -> x.house(2));
             does(x -> {
@@ -83,14 +80,11 @@ public final class HouseBounds extends Trial {
             x -> x.black(0, 0, 50, 50, 1, 1), x -> x.merge(0), x -> x.lock(0, -1, 0)};
         for (int k = 0; k < idle.length; k++) {
             back();
-            does(Pagedocument::undo);
             does(idle[k]);
             due("CHANGE " + k, 4, x -> x.house(2));
         }
         back();
-        does(x -> x.copyFile(1, 0));
         goOn("all else is none");
-        does(Pagedocument::undo);
         Call[] others = {x -> x.say(97, -1, -1, -1, -1, -1), x -> x.line(), x -> x.fault(), x -> x.written(), x -> x.filtered(0, false),
             x -> x.size(0), x -> x.text(0, 0), x -> x.place(0, 0), x -> x.hurt(0, 0, 37), x -> x.put(3, 0), x -> x.cut(3, 0),
             x -> x.copyFile(3, 0), x -> x.write(1, 1, true), x -> x.update(1), x -> x.faultOf(0), x -> x.object(0, 1),

@@ -25,12 +25,14 @@ public final class LongRuns extends Trial {
         define(1, 1, "<</Pages 2 R/A 3 R>>");
         does(x -> x.write(0, 0, false));
         does(x -> x.write(1, 1, true));
+        define(0, 3, "(other)");
         type(times(50, "abcd"));
         for (int k = 0; k < 90; k++) {
             int object = 10 + k % 40;
             does(x -> x.stream(1, object));
             does(x -> x.filter(1, object, 0, -1, -1));
         }
+        define(0, 3, "(three)");
         due("as it was", 0, x -> x.update(0));
         due("the other one", 0, x -> x.update(1));
         due("a VALUE", "(three)", x -> x.object(0, 3));
@@ -41,7 +43,9 @@ public final class LongRuns extends Trial {
             due("DATA of " + n, hex, x -> x.data(1, object, false));
             due("TEXT of " + n, times(50, "abcd"), x -> x.data(1, object, true));
         }
-        due("undone", 3, Pagedocument::undo);
+        due("other again", 3, Pagedocument::undo);
+        due("a VALUE", "(other)", x -> x.object(0, 3));
+        due("undone", 2, Pagedocument::undo);
         due("not filtered", times(50, "abcd"), x -> x.data(1, 19, false));
         does(Pagedocument::undo);
         due("as it was filtered ahead of that", hex, x -> x.data(1, 19, false));
@@ -135,12 +139,12 @@ public final class LongRuns extends Trial {
         file(0, body(1, "<</Kind/Root/A 2 R>>") + rows);
         does(x -> x.repair(0, 0));
         does(x -> x.write(0, 1, false));
+        refused("a copy of the other one", x -> x.merge(1));
         refused("no numbers are left for PACKS", x -> x.write(0, 2, true));
         for (int k = 0; k < 5; k++) {
             due("READ", 60, x -> x.read(1, 0));
             due("READ", 60, x -> x.read(1, 1));
         }
-        refused("a copy of the other one", x -> x.merge(1));
         for (int k = 0; k < 60; k++) {
             due("FAULT", 0, x -> x.faultOf(1));
         }

@@ -195,6 +195,8 @@ public final class NoteBounds extends Trial {
         index("far behind", x -> x.lineOf(0, Integer.MAX_VALUE));
         index("DOCUMENT -1", x -> x.lineOf(-1, 0));
         index("DOCUMENT 2", x -> x.lineOf(2, 0));
+        define(1, 1, "<</Lines[<</Deep 0/Title()/To 1 R>>]>>");
+        idle("to number 1", " -", x -> x.lineOf(1, 0));
         does(x -> x.dropPage(0, 11));
         idle("a PAGE that was dropped", ">()\\  -", x -> x.lineOf(0, 1));
         does(x -> x.movePage(0, 0, 10));
@@ -443,7 +445,7 @@ public final class NoteBounds extends Trial {
     private void openTill() {
         start("OPEN as one tells a KEY with that Code (or as it was locked), till it is READ, REPAIRED or made NEW");
         does(x -> x.lock(0, 5, 0));
-        due("as it was locked", 2, x -> x.newPage(0, 0, 1, 1) - 1);
+        due("as it was locked", 3, x -> x.newPage(0, 0, 1, 1));
         does(x -> x.write(0, 0, false));
         due("WRITTEN", 1, x -> x.ofDoc(0, 7));
         does(x -> x.newPage(0, 0, 1, 1));

@@ -529,6 +529,9 @@ public final class ReadBounds extends Trial {
         repairIs("numbers that fall", body(9, "/Kind/Pack", "5 1\n4 2\n3 3\n"), 3, "3");
         goOn("if no BODY has that number");
         repairIs("a BODY ahead", "4 o\n7\nend\n" + body(9, "/Kind/Pack", "4 5\n"), 4, "7");
+        file(0, "4 o\n<</Kind/Root>>\nend\n" + body(9, "/Kind/Pack", "4 5\n"));
+        due("a BODY at the begin of the FILE", 1, x -> x.repair(0, 0));
+        due("it stays", "<</Kind /Root>>", x -> x.object(0, 4));
         repairIs("a BODY behind", body(9, "/Kind/Pack", "4 5\n") + "4 o\n7\nend\n", 4, "7");
         repairIs("the BODY of a PACK", body(9, "/Kind/Pack", "9 5\n"), 9, "");
         repairIs("the BODY of another PACK", body(9, "/Kind/Pack", "8 5\n") + body(8, "/Kind/Pack/Filter/Hex", ""), 8, "");
