@@ -9,14 +9,6 @@ public final class LongRuns extends Trial {
         runs.end();
     }
 
-    private static String sixty(String values) {
-        StringBuilder bodies = new StringBuilder();
-        for (int n = 1; n <= 60; n++) {
-            bodies.append(body(n, n == 1 ? "<</Kind/Root>>" : "(" + values + n + ")"));
-        }
-        return bodies.toString();
-    }
-
     private void manyTexts() {
         start("HOME, with the text that it had then, and the OBJECTS as they were then; the last 4 CHANGES");
         define(0, 3, "(three)");
@@ -106,37 +98,67 @@ public final class LongRuns extends Trial {
         due("sound", true, Pagedocument::isSound);
     }
 
+    /** BODIES of 60 OBJECTS, each with a REF to the next one. */
+    private static String chain() {
+        StringBuilder bodies = new StringBuilder(body(1, "<</Kind/Root/A 2 R>>"));
+        for (int n = 2; n <= 60; n++) {
+            bodies.append(body(n, link(n)));
+        }
+        return bodies.toString();
+    }
+
+    private static String link(int n) {
+        return n < 60 ? "[" + (n + 1) + " R (c" + n + ")]" : "[(c60)]";
+    }
+
+    /** Looks whether a DOCUMENT has the OBJECTS of the chain; OBJECT 2 may be another one. */
+    private void isChain(int doc, String second) {
+        due("OBJECT 2", second, x -> x.object(doc, 2));
+        for (int n = 3; n <= 60; n += 8) {
+            int object = n;
+            due("OBJECT " + n, link(n), x -> x.object(doc, object));
+        }
+    }
+
     private void manyObjects() {
-        start("60 OBJECTS each, HOME and the last 4 CHANGES of both");
-        file(0, sixty("a"));
-        does(x -> x.copyFile(3, 0));
-        does(x -> x.repair(0, 0));
-        refused("a copy of the other one", x -> x.merge(1));
-        for (int k = 0; k < 4; k++) {
-            due("REPAIRED", 60, x -> x.repair(0, 0));
-            due("the other one", 60, x -> x.repair(3, 1));
+        for (int more = 0; more < 10; more++) {
+            changesOf(more % 2, more / 2);
+        }
+        homesOfMany();
+    }
+
+    /** A CHANGE that is kept alone by one of the last 4 may not be lost, whichever place it is kept at. */
+    private void changesOf(int doc, int more) {
+        String second = "[3 R (another one, somewhat longer)]";
+        start("60 OBJECTS each, and the last 4 CHANGES of " + doc + ", behind " + more + " others");
+        file(0, chain());
+        does(x -> x.copyFile(2, 0));
+        type(body(2, second));
+        does(x -> x.put(2, x.size(2)));
+        does(x -> x.repair(2, 1 - doc));
+        for (int k = 0; k <= more; k++) {
+            does(x -> x.repair(0, doc));
+        }
+        does(x -> x.write(doc, 1, false));
+        for (int k = 0; k < 2; k++) {
+            due("REPAIRED", 60, x -> x.repair(2, doc));
+            due("the other FILE", 60, x -> x.repair(0, doc));
         }
         for (int k = 0; k < 40; k++) {
-            does(x -> x.faultOf(0));
-            does(Pagedocument::isSound);
+            due("FAULT", 0, x -> x.faultOf(1));
         }
-        allSixty("a");
-        does(x -> x.hurt(0, x.size(0) - 11, 'z'));
+        isChain(doc, link(2));
         for (int left = 3; left >= 0; left--) {
-            due("undone", true, x -> x.undo() >= 0);
-            due("how many", 60, x -> x.ofDoc(0, 0));
-            allSixty("a");
+            int many = left;
+            due("undone", many, Pagedocument::undo);
+            isChain(doc, many % 2 == 1 ? second : link(2));
+            isChain(1 - doc, second);
         }
-        due("sound", true, Pagedocument::isSound);
-        start("the same with a TABLE");
-        file(0, sixty("b"));
-        does(x -> x.repair(0, 0));
-        define(0, 1, "<</A 60 R>>");
-        StringBuilder rows = new StringBuilder();
-        for (int n = 2; n <= 60; n++) {
-            rows.append(body(n, (n < 60 ? "[" + (n + 1) + " R(" : "[(") + "c" + n + ")]"));
-        }
-        file(0, body(1, "<</Kind/Root/A 2 R>>") + rows);
+    }
+
+    private void homesOfMany() {
+        start("60 OBJECTS each, HOME and the last 4 CHANGES of both");
+        file(0, chain());
         does(x -> x.repair(0, 0));
         does(x -> x.write(0, 1, false));
         refused("a copy of the other one", x -> x.merge(1));
@@ -148,27 +170,19 @@ public final class LongRuns extends Trial {
         for (int k = 0; k < 60; k++) {
             due("FAULT", 0, x -> x.faultOf(1));
         }
-        for (int k = 0; k < 2; k++) {
-            int doc = k;
-            due("as it was READ", 0, x -> x.update(doc));
-            for (int n = 2; n < 60; n++) {
-                int object = n;
-                due("OBJECT " + n, "[" + (n + 1) + " R (c" + n + ")]", x -> x.object(doc, object));
-            }
-        }
+        due("as it was READ", 0, x -> x.update(0));
+        due("the other one", 0, x -> x.update(1));
+        isChain(0, link(2));
+        isChain(1, link(2));
         for (int left = 3; left >= 0; left--) {
             int many = left;
             due("undone", many, Pagedocument::undo);
-            due("as it was READ", 0, x -> x.update(many % 2));
-            due("the last", "[(c60)]", x -> x.object(many % 2, 60));
+            due("as it was READ", 0, x -> x.update(0));
+            due("the other one", 0, x -> x.update(1));
+            isChain(0, link(2));
+            isChain(1, link(2));
         }
-    }
-
-    private void allSixty(String values) {
-        for (int n = 2; n <= 60; n++) {
-            int object = n;
-            due("OBJECT " + n, "(" + values + n + ")", x -> x.object(object % 2, object));
-        }
+        due("sound", true, Pagedocument::isSound);
     }
 
     private void allCalls() {
