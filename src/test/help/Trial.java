@@ -247,6 +247,14 @@ abstract class Trial {
         does(on -> on.repair(3, 0));
     }
 
+    /** DOCUMENT 0 gets a LOCK by KEY 5, if it is OPEN by that, and is not OPEN then. */
+    protected final void closed(int lets) {
+        does(on -> on.open(0, 5));
+        does(on -> on.lock(0, 5, lets));
+        does(on -> on.write(0, 0, false));
+        does(on -> on.read(0, 0));
+    }
+
     /** All MARKS of a PAGE, and FAULT of its CONTENT, if it has one. */
     protected static String marks(Pagedocument of, int doc, int page) {
         StringBuilder told = new StringBuilder();

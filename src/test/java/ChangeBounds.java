@@ -36,14 +36,6 @@ public final class ChangeBounds extends Trial {
         bounds.end();
     }
 
-    /** DOCUMENT 0 gets a LOCK and is not OPEN. */
-    private void closed(int lets) {
-        does(x -> x.open(0, 5));
-        does(x -> x.lock(0, 5, lets));
-        does(x -> x.write(0, 0, false));
-        does(x -> x.read(0, 0));
-    }
-
     /** All numbers of DOCUMENT 0 from one to another are taken. */
     private void taken(int from, int to) {
         type("1");

@@ -27,14 +27,6 @@ public final class NoteBounds extends Trial {
         bounds.end();
     }
 
-    /** DOCUMENT 0 gets a LOCK and is not OPEN. */
-    private void closed(int lets) {
-        does(x -> x.open(0, 5));
-        does(x -> x.lock(0, 5, lets));
-        does(x -> x.write(0, 0, false));
-        does(x -> x.read(0, 0));
-    }
-
     private void note() {
         start("A NOTE comes behind those of a PAGE; returns how many BOOKS stand in \"Notes\" then");
         does(x -> x.newPage(0, 0, 9, 9));

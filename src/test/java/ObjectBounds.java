@@ -190,23 +190,17 @@ public final class ObjectBounds extends Trial {
         type("");
         idle("an empty LINE", -7, x -> x.define(0, 1));
         index("exceptions go ahead", x -> x.define(0, 61));
+        does(x -> x.fresh(0));
         closed(5);
         type("1");
         refused("the LOCK", x -> x.define(0, 1));
         type("[1");
         refused("the LOCK ahead of the FAULT", x -> x.define(0, 1));
+        does(x -> x.fresh(0));
         closed(2);
         idle("the LOCK lets it", -7, x -> x.define(0, 1));
         type("1");
         due("so", 1, x -> x.define(0, 1));
-    }
-
-    /** DOCUMENT 0 gets a LOCK and is not OPEN. */
-    private void closed(int lets) {
-        does(x -> x.fresh(0));
-        does(x -> x.lock(0, 5, lets));
-        does(x -> x.write(0, 0, false));
-        does(x -> x.read(0, 0));
     }
 
     private void streams() {
@@ -260,10 +254,12 @@ public final class ObjectBounds extends Trial {
         define(0, 60, "<<" + NINE + ">>");
         type("x");
         due("9", 1, x -> x.stream(0, 60));
+        does(x -> x.fresh(0));
         closed(5);
         refused("the LOCK", x -> x.stream(0, 60));
         refused("the LOCK, of one that is there", x -> x.stream(0, 1));
         index("exceptions go ahead", x -> x.stream(0, 61));
+        does(x -> x.fresh(0));
         closed(2);
         due("the LOCK lets it", 0, x -> x.stream(0, 60));
     }
@@ -279,10 +275,12 @@ public final class ObjectBounds extends Trial {
         due("the number of the ROOT stays", 1, x -> x.ofDoc(0, 3));
         due("again", 0, x -> x.drop(0, 1));
         due("the other DOCUMENT", 2, x -> x.ofDoc(1, 0));
+        does(x -> x.fresh(0));
         closed(5);
         refused("the LOCK", x -> x.drop(0, 1));
         refused("the LOCK, of none", x -> x.drop(0, 60));
         index("exceptions go ahead", x -> x.drop(0, 0));
+        does(x -> x.fresh(0));
         closed(2);
         due("the LOCK lets it", 1, x -> x.drop(0, 1));
     }
@@ -322,8 +320,10 @@ public final class ObjectBounds extends Trial {
     private void sweepRefused() {
         start("-9 if the LOCK does not let it");
         define(0, 60, "1");
+        does(x -> x.fresh(0));
         closed(5);
         refused("nothing would go", x -> x.sweep(0));
+        does(x -> x.fresh(0));
         closed(2);
         due("the LOCK lets it", 0, x -> x.sweep(0));
     }

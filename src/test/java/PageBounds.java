@@ -380,13 +380,6 @@ public final class PageBounds extends Trial {
         }
     }
 
-    /** DOCUMENT 0 gets a LOCK and is not OPEN. */
-    private void closed(int lets) {
-        does(x -> x.lock(0, 5, lets));
-        does(x -> x.write(0, 0, false));
-        does(x -> x.read(0, 0));
-    }
-
     private void turnRefused() {
         start("-9 if it can not be, or the LOCK does not let it");
         does(x -> x.newPage(0, 0, 9, 9));
@@ -438,7 +431,6 @@ public final class PageBounds extends Trial {
         closed(6);
         refused("the LOCK", x -> x.boxPage(0, 0, 0, 0, 1, 1));
         argument("exceptions go ahead", x -> x.boxPage(0, 0, 0, 0, 0, 1));
-        does(x -> x.open(0, 5));
         closed(1);
         due("the LOCK lets it", 0, x -> x.boxPage(0, 0, 0, 0, 1, 1));
     }
